@@ -16,7 +16,9 @@ public final class StoneHome {
   private static final int FACE_ROOM = 3;
   private static final int KICK_ROOM = 4;
   private static final int OUTCOME_ROOM = 6;
-  private static final int ALL_OUTCOMES = 24;
+  /** A WAY is an outcome of a kick, kick * OUTCOME_ROOM + outcome, or behind all of these what comes of a wait. */
+  private static final int WAIT_WAY = 24;
+  private static final int WAY_ROOM = 25;
   private static final int IF_ROOM = 4;
   private static final int PAREN_ROOM = 6;
   private static final int TOLD_ROOM = 5;
@@ -152,21 +154,14 @@ public final class StoneHome {
     if (!canBeKicked(kick)) {
       return NOT_NOW;
     }
-    past.keep(stone);
-    int outcome = street.drawnOutcome(kick, stone.done);
-    int to = street.landing(stone.lie(), kick, outcome, stone.done * street.takes);
-    stone.done++;
-    return settle(to);
+    return comeBy(street.drawnWay(kick, stone.done));
   }
 
   public int waits() {
     if (stone.state != ON_ITS_WAY) {
       return NOT_NOW;
     }
-    past.keep(stone);
-    stone.done++;
-    boolean hit = street.carsCome(stone.square, stone.done * street.takes);
-    return settle(hit ? LOST : stone.lie());
+    return comeBy(WAIT_WAY);
   }
 
   public boolean touch(int way) {
@@ -188,7 +183,8 @@ public final class StoneHome {
     if (!street.hasOutcome(kick, outcome) || what < 0 || what > 3 || !canBeKicked(kick)) {
       return NONE;
     }
-    int to = street.landing(stone.lie(), kick, outcome, stone.done * street.takes);
+    int way = kick * OUTCOME_ROOM + outcome;
+    int to = street.landing(stone.lie(), way, stone.done * street.takes);
     if (what == 3) {
       return to == LOST ? 1 : 0;
     }
@@ -460,6 +456,13 @@ public final class StoneHome {
 
   private boolean canBeKicked(int kick) {
     return stone.state == ON_ITS_WAY && street.canKickFrom(stone.square, kick);
+  }
+
+  private int comeBy(int way) {
+    past.keep(stone);
+    int to = street.landing(stone.lie(), way, stone.done * street.takes);
+    stone.done++;
+    return settle(to);
   }
 
   /** The stone comes to a lie, or is lost: what kick() answers for that. */
@@ -871,10 +874,10 @@ public final class StoneHome {
     int faces = 1;
     int kicks = 0;
     final int[] outcomes = new int[KICK_ROOM];
-    final int[] sixths = new int[ALL_OUTCOMES];
-    final int[] far = new int[ALL_OUTCOMES];
-    final int[] aside = new int[ALL_OUTCOMES];
-    final int[] turns = new int[ALL_OUTCOMES];
+    final int[] sixths = new int[WAY_ROOM];
+    final int[] far = new int[WAY_ROOM];
+    final int[] aside = new int[WAY_ROOM];
+    final int[] turns = new int[WAY_ROOM];
     final Laws laws = new Laws();
     final int[] stoneSpot = new int[3];
     final int[] friendSpot = new int[3];
@@ -888,6 +891,7 @@ public final class StoneHome {
       Arrays.fill(sorts, NONE);
       faces = 1;
       kicks = 0;
+      sixths[WAIT_WAY] = SIXTHS;
       laws.clear();
       Arrays.fill(stoneSpot, 0);
       Arrays.fill(friendSpot, 0);
@@ -928,18 +932,8 @@ public final class StoneHome {
       return sort != NONE && sort != GUTTER && sort != WALL;
     }
 
-    /** It can lie there and is not at home yet. */
-    boolean isOpen(int square) {
-      int sort = sortOf(square);
-      return sort != NONE && sort <= PARKED;
-    }
-
     boolean isHomeLie(int lie) {
       return sortOf(lie / FACE_ROOM) == AT_HOME;
-    }
-
-    boolean isOpenLie(int lie) {
-      return lie % FACE_ROOM < faces && isOpen(lie / FACE_ROOM);
     }
 
     boolean hasKick(int kick) {
@@ -951,19 +945,31 @@ public final class StoneHome {
     }
 
     boolean canKickFrom(int square, int kick) {
-      int sort = sortOf(square);
-      if (!hasKick(kick) || sort == NONE) {
+      if (kick < 0 || kick >= kicks || square < 0 || square >= SQUARE_ROOM || sorts[square] == NONE) {
         return false;
       }
-      return sort < PARKED || sort == PARKED && outcomes[kick] == 1;
+      return sorts[square] < PARKED || sorts[square] == PARKED && outcomes[kick] == 1;
     }
 
-    int outcomesOf(int kick) {
-      return hasKick(kick) ? outcomes[kick] : 0;
+    /** An ACTION is a kick, or a wait, which has the number behind the last kick's. */
+    boolean canDoFrom(int square, int action) {
+      return action == kicks || canKickFrom(square, action);
     }
 
-    int sixthsOf(int kick, int outcome) {
-      return hasOutcome(kick, outcome) ? sixths[kick * OUTCOME_ROOM + outcome] : 0;
+    int firstWay(int action) {
+      return action == kicks ? WAIT_WAY : action * OUTCOME_ROOM;
+    }
+
+    /** The way behind the action's last one. */
+    int endOfWays(int action) {
+      if (action < 0 || action >= kicks) {
+        return WAIT_WAY + 1;
+      }
+      return action * OUTCOME_ROOM + outcomes[action];
+    }
+
+    int sixthsOf(int way) {
+      return way >= 0 && way < WAY_ROOM ? sixths[way] : 0;
     }
 
     int stoneLie() {
@@ -998,8 +1004,8 @@ public final class StoneHome {
 
     int allOutcomes() {
       int all = 0;
-      for (int kick = 0; kick < kicks; kick++) {
-        all += outcomesOf(kick);
+      for (int kick = 0; kick < kicks && kick < KICK_ROOM; kick++) {
+        all += outcomes[kick];
       }
       return all;
     }
@@ -1010,19 +1016,21 @@ public final class StoneHome {
       return laws.value(Laws.CARS) > 0;
     }
 
-    /** How it lies behind an outcome of a kick in that second; LOST if it is lost by it. */
-    int landing(int lie, int kick, int outcome, int second) {
+    /** How it lies behind what is done in that second and comes out that way; LOST if it is lost by it. */
+    int landing(int lie, int way, int second) {
       int square = lie / FACE_ROOM;
-      int side = lie % FACE_ROOM;
-      if (!hasOutcome(kick, outcome) || faces < 1) {
-        return lie;
+      if (way == WAIT_WAY) {
+        return carsCome(square, second + takes) ? LOST : lie;
       }
-      int told = kick * OUTCOME_ROOM + outcome;
+      if (way < 0 || way >= WAIT_WAY || faces < 1) {
+        return LOST;
+      }
+      int side = lie % FACE_ROOM;
       laws.setWhere(alongOf(square), acrossOf(square), side, sortOf(square));
-      laws.setHow(kick, far[told], second);
-      int along = alongOf(square) + far[told] + held(laws.value(Laws.RUNS), 4);
-      int across = acrossOf(square) + aside[told] + held(laws.value(Laws.DRIFT), 2);
-      int turned = (side + turns[told]) % faces;
+      laws.setHow(way / OUTCOME_ROOM, far[way], second);
+      int along = alongOf(square) + far[way] + held(laws.value(Laws.RUNS), 4);
+      int across = acrossOf(square) + aside[way] + held(laws.value(Laws.DRIFT), 2);
+      int turned = (side + turns[way]) % faces;
       along = Math.max(0, Math.min(length - 1, along));
       int sort = sortAt(along, across);
       // At a wall it comes to no other square, so no cars can meet it there.
@@ -1039,17 +1047,18 @@ public final class StoneHome {
       return lieOf(to, turned);
     }
 
-    int drawnOutcome(int kick, int which) {
+    int drawnWay(int kick, int which) {
       int drawn = lotOfSix(which);
       int soFar = 0;
-      int most = outcomesOf(kick);
-      for (int outcome = 0; outcome < most; outcome++) {
-        soFar += sixthsOf(kick, outcome);
+      int first = firstWay(kick);
+      int end = endOfWays(kick);
+      for (int way = first; way < end; way++) {
+        soFar += sixthsOf(way);
         if (soFar > drawn) {
-          return outcome;
+          return way;
         }
       }
-      return 0;
+      return first;
     }
 
     private int lotOfSix(int which) {
@@ -1427,7 +1436,7 @@ public final class StoneHome {
         take();
         turns = takeInt(0, 2);
       }
-      if (told >= 0 && told < ALL_OUTCOMES) {
+      if (told >= 0 && told < WAIT_WAY) {
         street.sixths[told] = sixths;
         street.far[told] = far;
         street.aside[told] = back ? -aside : aside;
@@ -1609,56 +1618,74 @@ public final class StoneHome {
     }
   }
 
-  /** Where each outcome of each kick brings it from each lie, at one step (the kicks and waits ahead of it). */
+  /** Where each way brings it from each lie, by steps: a step is how many kicks and waits came ahead of it. */
   private static final class Table {
-    private final int[] landings = new int[LIE_ROOM * ALL_OUTCOMES];
-    private final boolean[] barred = new boolean[SQUARE_ROOM];
+    /** More than any forecast goes ahead, so that it meets each of its steps once. */
+    private static final int KEPT_STEPS = 16;
+
     private Street street;
-    private int step = NONE;
+    /** The rows come as they are needed: where no law looks at the second, one does for all steps. */
+    private final int[][] rows = new int[KEPT_STEPS][];
+    private final int[] steps = new int[KEPT_STEPS];
+    private int[] landings = new int[LIE_ROOM * WAY_ROOM];
+    /** Where it can be kicked from, then those at home. */
+    final int[] lies = new int[LIE_ROOM];
+    int openLies = 0;
+    int allLies = 0;
 
     Table(Street wanted) {
       street = wanted;
+      rows[0] = landings;
     }
 
     void follow(Street wanted) {
       street = wanted;
-      step = NONE;
+      Arrays.fill(steps, NONE);
+      allLies = 0;
+      listLies(false);
+      openLies = allLies;
+      listLies(true);
     }
 
-    /** Steps are alike where no law looks at the second: one table does for all of them. */
+    private void listLies(boolean home) {
+      for (int lie = 0; lie < LIE_ROOM; lie++) {
+        if (lie % FACE_ROOM < street.faces && street.canLie(lie / FACE_ROOM) && street.isHomeLie(lie) == home) {
+          lies[allLies] = lie;
+          allLies++;
+        }
+      }
+    }
+
     int stepThatCounts(int wanted) {
       return street.laws.areTimed() ? wanted : 0;
     }
 
     void turnTo(int wanted) {
-      int counts = stepThatCounts(wanted);
-      if (counts == step) {
+      int step = stepThatCounts(wanted);
+      int at = step % KEPT_STEPS;
+      if (at < 0) {
         return;
       }
-      step = counts;
-      int second = step * street.takes;
-      for (int square = 0; square < SQUARE_ROOM; square++) {
-        barred[square] = street.isOpen(square) && street.carsCome(square, second + street.takes);
+      if (rows[at] == null) {
+        rows[at] = new int[LIE_ROOM * WAY_ROOM];
       }
-      for (int at = 0; at < landings.length; at++) {
-        int lie = at / ALL_OUTCOMES;
-        int kick = at % ALL_OUTCOMES / OUTCOME_ROOM;
-        int outcome = at % OUTCOME_ROOM;
-        if (street.isOpenLie(lie) && street.hasOutcome(kick, outcome)) {
-          landings[at] = street.landing(lie, kick, outcome, second);
+      landings = rows[at];
+      int missing = steps[at] == step ? 0 : openLies;
+      steps[at] = step;
+      for (int i = 0; i < missing; i++) {
+        int lie = lies[i];
+        for (int action = 0; action <= street.kicks; action++) {
+          int end = street.canDoFrom(lie / FACE_ROOM, action) ? street.endOfWays(action) : 0;
+          for (int way = street.firstWay(action); way < end; way++) {
+            landings[lie * WAY_ROOM + way] = street.landing(lie, way, step * street.takes);
+          }
         }
       }
     }
 
-    int landing(int lie, int kick, int outcome) {
-      int at = lie * ALL_OUTCOMES + kick * OUTCOME_ROOM + outcome;
+    int landing(int lie, int way) {
+      int at = lie * WAY_ROOM + way;
       return at >= 0 && at < landings.length ? landings[at] : LOST;
-    }
-
-    /** Whether cars come where it lies while it waits. */
-    boolean isBarred(int lie) {
-      int square = lie / FACE_ROOM;
-      return square >= 0 && square < SQUARE_ROOM && barred[square];
     }
   }
 
@@ -1733,13 +1760,11 @@ public final class StoneHome {
 
     private void fillLayer(int left) {
       int mostLives = Math.min(street.lives + 1, LIVES_ROOM - 1);
-      for (int lie = 0; lie < LIE_ROOM; lie++) {
-        boolean open = street.isOpenLie(lie);
+      for (int i = 0; i < table.allLies && i < LIE_ROOM; i++) {
+        int lie = table.lies[i];
+        boolean open = i < table.openLies && left > 0;
         for (int lives = 0; lives <= mostLives; lives++) {
-          int at = placeFor(lie, lives);
-          if (at != NONE) {
-            chances[at] = open && left > 0 ? chanceThere(lie, lives) : chanceAtRest(lie, left);
-          }
+          chances[lie * LIVES_ROOM + lives] = open ? chanceThere(lie, lives) : chanceAtRest(lie, left);
         }
       }
     }
@@ -1761,20 +1786,17 @@ public final class StoneHome {
       return likeliest;
     }
 
-    /** By a kick, or a wait behind the last kick's number; NONE if it cannot be. */
+    /** NONE if it cannot be done there. */
     private int chanceBy(int action, int lie, int lives) {
-      int lost = laterChance(lie, lives - 1);
-      if (action == street.kicks) {
-        return SIXTHS * (table.isBarred(lie) ? lost : laterChance(lie, lives));
-      }
-      if (!street.canKickFrom(lie / FACE_ROOM, action)) {
+      if (!street.canDoFrom(lie / FACE_ROOM, action)) {
         return NONE;
       }
+      int lost = laterChance(lie, lives - 1);
       int sum = 0;
-      int outcomes = street.outcomesOf(action);
-      for (int outcome = 0; outcome < outcomes; outcome++) {
-        int to = table.landing(lie, action, outcome);
-        sum += street.sixthsOf(action, outcome) * (to == LOST ? lost : laterChance(to, lives));
+      int end = street.endOfWays(action);
+      for (int way = street.firstWay(action); way < end; way++) {
+        int to = table.landing(lie, way);
+        sum += street.sixthsOf(way) * (to == LOST ? lost : laterChance(to, lives));
       }
       return sum;
     }
@@ -1829,68 +1851,59 @@ public final class StoneHome {
     }
 
     private void takeMyTurn(int whole) {
-      for (int his = 0; his < HIS_ROOM; his++) {
-        if (his == HIS_LOST || street.isOpenLie(his)) {
-          for (int mine = 0; mine < LIE_ROOM; mine++) {
-            line[mine] = odds[mine * HIS_ROOM + his];
-          }
-          for (int mine = 0; mine < LIE_ROOM; mine++) {
-            odds[mine * HIS_ROOM + his] = street.isOpenLie(mine) ? myBest(mine, whole) : 0;
-          }
+      for (int i = 0; i <= table.openLies; i++) {
+        int his = i < table.openLies ? table.lies[i] : HIS_LOST;
+        for (int j = 0; j < table.openLies; j++) {
+          line[table.lies[j]] = odds[table.lies[j] * HIS_ROOM + his];
+        }
+        for (int j = 0; j < table.openLies; j++) {
+          odds[table.lies[j] * HIS_ROOM + his] = myBest(table.lies[j], whole);
         }
       }
     }
 
     private void takeHisTurn() {
-      for (int mine = 0; mine < LIE_ROOM; mine++) {
-        if (street.isOpenLie(mine)) {
-          System.arraycopy(odds, mine * HIS_ROOM, line, 0, HIS_ROOM);
-          for (int his = 0; his < LIE_ROOM; his++) {
-            odds[mine * HIS_ROOM + his] = street.isOpenLie(his) ? hisBest(his) : 0;
-          }
-          odds[mine * HIS_ROOM + HIS_LOST] = SIXTHS * line[HIS_LOST];
+      for (int i = 0; i < table.openLies; i++) {
+        int mine = table.lies[i];
+        System.arraycopy(odds, mine * HIS_ROOM, line, 0, HIS_ROOM);
+        for (int j = 0; j < table.openLies; j++) {
+          odds[mine * HIS_ROOM + table.lies[j]] = hisBest(table.lies[j]);
         }
+        odds[mine * HIS_ROOM + HIS_LOST] = SIXTHS * line[HIS_LOST];
       }
     }
 
     private int myBest(int mine, int whole) {
-      int most = table.isBarred(mine) ? 0 : SIXTHS * line[mine];
+      int most = chanceBy(street.kicks, mine, whole, 0);
       for (int kick = 0; kick < street.kicks; kick++) {
         if (street.canKickFrom(mine / FACE_ROOM, kick)) {
-          most = Math.max(most, myChance(mine, kick, whole));
+          most = Math.max(most, chanceBy(kick, mine, whole, 0));
         }
       }
       return most;
     }
 
-    private int myChance(int mine, int kick, int whole) {
-      int sum = 0;
-      int outcomes = street.outcomesOf(kick);
-      for (int outcome = 0; outcome < outcomes; outcome++) {
-        int to = table.landing(mine, kick, outcome);
-        int chance = to < 0 || to >= LIE_ROOM ? 0 : street.isHomeLie(to) ? whole : line[to];
-        sum += street.sixthsOf(kick, outcome) * chance;
-      }
-      return sum;
-    }
-
     private int hisBest(int his) {
-      int least = SIXTHS * line[table.isBarred(his) ? HIS_LOST : his];
+      int least = chanceBy(street.kicks, his, 0, line[HIS_LOST]);
       for (int kick = 0; kick < street.kicks; kick++) {
         if (street.canKickFrom(his / FACE_ROOM, kick)) {
-          least = Math.min(least, chanceByHis(his, kick));
+          least = Math.min(least, chanceBy(kick, his, 0, line[HIS_LOST]));
         }
       }
       return least;
     }
 
-    private int chanceByHis(int his, int kick) {
+    /** atHome, lost: the odds if the stone that is kicked comes home, or is lost. */
+    private int chanceBy(int action, int lie, int atHome, int lost) {
       int sum = 0;
-      int outcomes = street.outcomesOf(kick);
-      for (int outcome = 0; outcome < outcomes; outcome++) {
-        int to = table.landing(his, kick, outcome);
-        int chance = to < 0 || to >= LIE_ROOM ? line[HIS_LOST] : street.isHomeLie(to) ? 0 : line[to];
-        sum += street.sixthsOf(kick, outcome) * chance;
+      int end = street.endOfWays(action);
+      for (int way = street.firstWay(action); way < end; way++) {
+        int to = table.landing(lie, way);
+        int chance = lost;
+        if (to >= 0 && to < LIE_ROOM) {
+          chance = street.isHomeLie(to) ? atHome : line[to];
+        }
+        sum += street.sixthsOf(way) * chance;
       }
       return sum;
     }
@@ -1946,13 +1959,13 @@ public final class StoneHome {
     }
 
     private void weighKick(Street street, int place, int square, int kick) {
-      int outcomes = street.outcomesOf(kick);
+      int end = street.endOfWays(kick);
       for (int side = 0; side < street.faces; side++) {
-        for (int outcome = 0; outcome < outcomes; outcome++) {
-          int to = street.landing(lieOf(square, side), kick, outcome, place * street.takes);
+        for (int way = street.firstWay(kick); way < end; way++) {
+          int to = street.landing(lieOf(square, side), way, place * street.takes);
           if (to != LOST && to / FACE_ROOM == squares[place]) {
             int at = placeFor(place, kick, side, to % FACE_ROOM);
-            ways[at] += street.sixthsOf(kick, outcome);
+            ways[at] += street.sixthsOf(way);
           }
         }
       }

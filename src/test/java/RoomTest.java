@@ -1,6 +1,6 @@
 import java.lang.management.ManagementFactory;
 
-/** What a run makes: some in the constructor, and then nothing, whatever is called. */
+/** What a run makes: some in the constructor, the rows of a table as they are needed, and then nothing. */
 public final class RoomTest {
   private static final Checks CHECKS = new Checks("RoomTest");
   private static final com.sun.management.ThreadMXBean MADE =
@@ -8,7 +8,9 @@ public final class RoomTest {
 
   /** Some 20,000 fields and elements of four bytes, with their objects' heads. */
   private static final long MOST_FOR_ONE = 100_000;
-  private static final long MOST_FOR_CALLS = 20_000;
+  /** Sixteen rows of 2,400 elements. */
+  private static final long MOST_FOR_ROWS = 170_000;
+  private static final long MOST_FOR_CALLS = 1_000;
 
   private static final String DEAR = "row tttttttt;row ttpttctt;row tttttstt;row ttttttth;faces 3;lives 2;"
       + kick("a") + kick("b") + kick("c") + kick("d")
@@ -32,8 +34,13 @@ public final class RoomTest {
     CHECKS.due("read", Checks.read(x, DEAR), 0);
     before = made();
     ask(x);
+    long rows = made() - before;
+    CHECKS.due("the first calls take little (" + rows + ")", rows <= MOST_FOR_ROWS, true);
+    CHECKS.due("read", Checks.read(x, DEAR), 0);
+    before = made();
+    ask(x);
     long calls = made() - before;
-    CHECKS.due("the calls take none (" + calls + ")", calls <= MOST_FOR_CALLS, true);
+    CHECKS.due("later calls take none (" + calls + ")", calls <= MOST_FOR_CALLS, true);
     CHECKS.end();
   }
 
