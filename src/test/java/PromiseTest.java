@@ -263,6 +263,9 @@ public final class PromiseTest {
     fault("kick a 6 by 9 0;kick a 6 by 1 0;", 5, 12);
     fault("kick a 6 by 1 0;kick a 6 by 9 0;", 3, 21);
     whole("row th;kick abcdefgh 6 by 1 0;kick abcdefgi 6 by 1 0;kick bcdefgh 6 by 1 0;");
+    whole("row th;kick az 6 by 1 0;kick za 6 by 1 0;kick zz 6 by 1 0;kick a 6 by 1 0;");
+    fault("row tz;kick az 6 by 1 0;kick az 6 by 1 0;", 6, 4);
+    fault("row th;kick az 6 by 1 0;kick az 6 by 1 0;", 3, 29);
   }
 
   // Promise 4: WHERE
