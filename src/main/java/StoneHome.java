@@ -1689,7 +1689,7 @@ public final class StoneHome {
     }
   }
 
-  /** How likely each lie leads where it should, counted in the sixths of all steps that are left, from the last step back. */
+  /** How likely each lie leads where it should, in the sixths of all the steps that are left, from the last one back. */
   private static final class Forecast {
     private final Table table;
     private Street street;
@@ -1813,7 +1813,7 @@ public final class StoneHome {
     }
   }
 
-  /** Two by turns: how likely mine is home ahead of his, from the last turn back, for each lie of mine and each of his. */
+  /** Two by turns: how likely mine is home ahead of his, for each lie of mine and each of his, from the last turn back. */
   private static final class Race {
     private static final int HIS_LOST = LIE_ROOM;
     private static final int HIS_ROOM = LIE_ROOM + 1;
@@ -1823,6 +1823,9 @@ public final class StoneHome {
     private final int[] odds = new int[LIE_ROOM * HIS_ROOM];
     /** What stood in the line that is being filled: the odds a turn later. */
     private final int[] line = new int[HIS_ROOM];
+    /** By lies: behind how many of its own turns a stone may first lie there. Others need no odds. */
+    private final int[] mySoonest = new int[LIE_ROOM];
+    private final int[] hisSoonest = new int[LIE_ROOM];
 
     Race(Table wantedTable, Street wanted) {
       table = wantedTable;
@@ -1833,43 +1836,79 @@ public final class StoneHome {
       street = wanted;
     }
 
-    /** In the sixths of all the turns, of which the last one is mine. */
+    /** In the sixths of all the turns, of which the first one and the last one are mine. */
     int chance(int step, int turns, int mine, int his) {
       if (street.isHomeLie(his) || mine < 0 || mine >= LIE_ROOM || his < 0 || his >= LIE_ROOM) {
         return 0;
       }
-      Arrays.fill(odds, 0);
-      for (int turn = turns - 1; turn >= 0; turn--) {
+      reach(mySoonest, mine, step, turns / 2);
+      reach(hisSoonest, his, step + 1, turns / 2);
+      for (int left = 0; left < turns; left++) {
+        int turn = turns - 1 - left;
         table.turnTo(step + turn);
         if (turn % 2 == 0) {
-          takeMyTurn(sixesOf(turns - 1 - turn));
+          takeMyTurn(turn / 2, left);
         } else {
-          takeHisTurn();
+          takeHisTurn(turn / 2);
         }
       }
       return odds[mine * HIS_ROOM + his];
     }
 
-    private void takeMyTurn(int whole) {
-      for (int i = 0; i <= table.openLies; i++) {
-        int his = i < table.openLies ? table.lies[i] : HIS_LOST;
-        for (int j = 0; j < table.openLies; j++) {
-          line[table.lies[j]] = odds[table.lies[j] * HIS_ROOM + his];
-        }
-        for (int j = 0; j < table.openLies; j++) {
-          odds[table.lies[j] * HIS_ROOM + his] = myBest(table.lies[j], whole);
+    private void reach(int[] soonest, int start, int step, int turns) {
+      Arrays.fill(soonest, MOST_TURNS);
+      soonest[start] = 0;
+      for (int turn = 0; turn < turns; turn++) {
+        table.turnTo(step + 2 * turn);
+        for (int i = 0; i < table.openLies; i++) {
+          int lie = table.lies[i];
+          for (int action = 0; action <= street.kicks && soonest[lie] <= turn; action++) {
+            reachBy(action, lie, soonest, turn + 1);
+          }
         }
       }
     }
 
-    private void takeHisTurn() {
+    private void reachBy(int action, int lie, int[] soonest, int turns) {
+      int end = street.canDoFrom(lie / FACE_ROOM, action) ? street.endOfWays(action) : 0;
+      for (int way = street.firstWay(action); way < end; way++) {
+        int to = table.landing(lie, way);
+        if (to >= 0 && to < soonest.length) {
+          soonest[to] = Math.min(soonest[to], turns);
+        }
+      }
+    }
+
+    /** Each has had so many turns; behind the last of mine it is too late. */
+    private void takeMyTurn(int turns, int left) {
+      for (int i = 0; i <= table.openLies; i++) {
+        int his = i < table.openLies ? table.lies[i] : HIS_LOST;
+        if (his == HIS_LOST || hisSoonest[his] <= turns) {
+          for (int j = 0; j < table.openLies; j++) {
+            line[table.lies[j]] = left == 0 ? 0 : odds[table.lies[j] * HIS_ROOM + his];
+          }
+          for (int j = 0; j < table.openLies; j++) {
+            if (mySoonest[table.lies[j]] <= turns) {
+              odds[table.lies[j] * HIS_ROOM + his] = myBest(table.lies[j], sixesOf(left));
+            }
+          }
+        }
+      }
+    }
+
+    /** He has had so many turns, and I one more. */
+    private void takeHisTurn(int turns) {
       for (int i = 0; i < table.openLies; i++) {
         int mine = table.lies[i];
-        System.arraycopy(odds, mine * HIS_ROOM, line, 0, HIS_ROOM);
-        for (int j = 0; j < table.openLies; j++) {
-          odds[mine * HIS_ROOM + table.lies[j]] = hisBest(table.lies[j]);
+        if (mySoonest[mine] <= turns + 1) {
+          System.arraycopy(odds, mine * HIS_ROOM, line, 0, HIS_ROOM);
+          for (int j = 0; j < table.openLies; j++) {
+            if (hisSoonest[table.lies[j]] <= turns) {
+              odds[mine * HIS_ROOM + table.lies[j]] = hisBest(table.lies[j]);
+            }
+          }
+          odds[mine * HIS_ROOM + HIS_LOST] = SIXTHS * line[HIS_LOST];
         }
-        odds[mine * HIS_ROOM + HIS_LOST] = SIXTHS * line[HIS_LOST];
       }
     }
 
@@ -1995,31 +2034,31 @@ public final class StoneHome {
       return NONE;
     }
 
+    /** Of 6 by itself, k times, how many by that row of kicks. */
     int weight(int k, int code) {
       Arrays.fill(sides, 0);
       sides[startSide] = 1;
-      for (int place = 0; place < k && place < TOLD_ROOM; place++) {
+      int all = 1;
+      for (int place = 0; place < k && place < TOLD_ROOM && all > 0; place++) {
         int kick = code >> CODE_BITS * (k - 1 - place) & CODE_MASK;
-        if (kick >= kicks) {
-          return 0;
-        }
-        pass(place, kick);
+        all = kick < kicks ? pass(place, kick) : 0;
       }
-      int sum = 0;
-      for (int side = 0; side < FACE_ROOM; side++) {
-        sum += sides[side];
-      }
-      return sum;
+      return all;
     }
 
-    private void pass(int place, int kick) {
+    /** From how many ways with each face to how many behind that kick; how many they are in all. */
+    private int pass(int place, int kick) {
+      int all = 0;
       Arrays.fill(sidesBehind, 0);
       for (int side = 0; side < FACE_ROOM; side++) {
         for (int behind = 0; behind < FACE_ROOM; behind++) {
-          sidesBehind[behind] += sides[side] * ways[placeFor(place, kick, side, behind)];
+          int more = sides[side] * ways[placeFor(place, kick, side, behind)];
+          sidesBehind[behind] += more;
+          all += more;
         }
       }
       System.arraycopy(sidesBehind, 0, sides, 0, FACE_ROOM);
+      return all;
     }
 
     private static int placeFor(int place, int kick, int side, int behind) {
