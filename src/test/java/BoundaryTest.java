@@ -7,6 +7,7 @@ public final class BoundaryTest {
     new KickBounds(bounds).look();
     new AheadBounds(bounds).look();
     new CallBounds(bounds).look();
+    new KeptBounds(bounds).look();
     bounds.end();
   }
 

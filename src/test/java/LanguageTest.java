@@ -32,6 +32,7 @@ public final class LanguageTest {
     faceStands();
     insideIsStatic();
     wordsAreNotUsed();
+    methodsAreShort();
     CHECKS.end();
   }
 
@@ -106,6 +107,18 @@ public final class LanguageTest {
     while (imports.find()) {
       CHECKS.due("import of " + imports.group(1), imports.group(1).equals("java.util.Arrays"), true);
     }
+  }
+
+  /** From a line that opens a method to the one that closes it, as far indented. */
+  private static void methodsAreShort() throws IOException {
+    String source = Files.readString(Path.of("src/main/java/StoneHome.java"), StandardCharsets.ISO_8859_1);
+    Matcher method = Pattern.compile("(?ms)^(  |    )(\\w[^\n;=]*\\)) \\{\n(.*?)^\\1\\}").matcher(source);
+    int methods = 0;
+    while (method.find()) {
+      methods++;
+      CHECKS.due(method.group(2) + " is short", method.group(3).lines().count() <= 58, true);
+    }
+    CHECKS.due("methods are found (" + methods + ")", methods > 100, true);
   }
 
   private LanguageTest() {

@@ -1,7 +1,3 @@
-import java.util.List;
-import java.util.function.Consumer;
-import java.util.function.ToLongFunction;
-
 /** Terms, III, and the promises 14 to 26: what would be. */
 final class AheadBounds {
   private static final String TERMS = "Terms";
@@ -10,9 +6,6 @@ final class AheadBounds {
   /** The same a step later, too late for ten. */
   private static final String ELEVEN = "row th;kick k 6 by 1 0;drift=if second<50 then 1 else 0;";
   private static final String HALVES = "row ttth;kick k 3 by 1 0 3 by 0 0;";
-  private static final List<Consumer<StoneHome>> SCENES =
-      List.of(Scenes::fresh, Scenes::busy, Scenes::parked, Scenes::atHome, Scenes::lost);
-  private static final List<Consumer<StoneHome>> OVER = List.of(Scenes::atHome, Scenes::lost);
 
   private final Bounds b;
 
@@ -22,36 +15,47 @@ final class AheadBounds {
 
   void look() {
     fractionsThatCannotBeLessened();
-    home();
-    best();
-    sure();
-    least();
-    rule();
-    comes();
-    worth();
-    face();
-    side();
-    goBy();
-    plan();
-    trap();
-    first();
+    homeByTheLikeliest();
+    homeNoneForNoSuchN();
+    bestTheFirstOfAlikeOnes();
+    bestOfAWaitIsHowManyKicks();
+    bestWhenHomeOrLost();
+    bestNoneForNoSuchN();
+    sureIfItCanBeMadeSure();
+    sureIs1Else0();
+    sureNoneForNoSuchN();
+    leastIsTheFewest();
+    leastIs10AtMost();
+    leastNotByThese();
+    leastNoneForNoSuchP();
+    ruleAlwaysTheSameKick();
+    ruleNoneForNoSuchOnes();
+    comesBehindJustN();
+    comesNoneForNoSuchOnes();
+    worthOfALifeOrATouch();
+    worthNoneForNoSuchN();
+    faceWithWhichHomeIsLikeliest();
+    faceWhenHomeOrLost();
+    faceNoneForNoSuchN();
+    sideByHome();
+    sideWhenHomeOrLost();
+    sideNoneForNoSuchN();
+    goBy0To5Waits();
+    goByWhenHomeOrLost();
+    goByNoneForNoSuchN();
+    planWithWhatIsNow();
+    planAsBest();
+    planOfHomeGutterWall();
+    planNoneForNoSuchOnes();
+    trapWithEachFace();
+    trapNoneForNoSuchN();
+    firstByTurns();
+    firstWhenMineIsHomeOrLost();
+    firstNoneForNoSuchN();
   }
 
   private void home(StoneHome x, int n, int above, int below) {
     b.part("home(" + n + ")", x.home(n, false), x.home(n, true), above, below);
-  }
-
-  /** Asking answers so in each scene, and changes nothing. */
-  private void refusedAlways(String what, ToLongFunction<StoneHome> call, long want) {
-    for (Consumer<StoneHome> scene : SCENES) {
-      b.refused(what, scene, call, want);
-    }
-  }
-
-  private void refusedWhenOver(String what, ToLongFunction<StoneHome> call, long want) {
-    for (Consumer<StoneHome> scene : OVER) {
-      b.refused(what, scene, call, want);
-    }
   }
 
   private void fractionsThatCannotBeLessened() {
@@ -77,13 +81,70 @@ final class AheadBounds {
       b.part("rule(0, " + n + ") of a lost one", lost.rule(0, n, false), lost.rule(0, n, true), 0, 1);
       b.part("comes(0, " + n + ", ..) of a lost one", lost.comes(0, n, 0, 0, false), lost.comes(0, n, 0, 0, true), 0, 1);
     }
+    lostWhereItWasLikely();
+    askedInTurn();
+  }
+
+  private void lostWhereItWasLikely() {
+    StoneHome x = b.on("row tth;kick a 6 by 1 0;kick b 6 by 0 1;");
+    home(x, 2, 1, 1);
+    b.due("lost for good", x.kick(1), 2);
+    for (int n = 0; n <= 10; n += 2) {
+      home(x, n, 0, 1);
+      b.due("sure(" + n + ")", x.sure(n), 0);
+      b.part("rule(0, " + n + ")", x.rule(0, n, false), x.rule(0, n, true), 0, 1);
+      b.part("comes(0, " + n + ", 0, 0)", x.comes(0, n, 0, 0, false), x.comes(0, n, 0, 0, true), 0, 1);
+      b.due("plan(2, 0, 0), which is of any stone", x.plan(2, 0, 0), 0);
+      worth(x, n, true, 0, 1);
+      worth(x, n, false, 0, 1);
+    }
+    b.due("least(1)", x.least(1), -2);
+  }
+
+  /** What was asked ahead, of the same n, or in another second, does not count for what is asked now. */
+  private void askedInTurn() {
+    StoneHome x = b.on("row ttth;kick a 6 by 1 0;kick b 3 by 3 0 3 by 0 0;");
+    for (int i = 0; i < 2; i++) {
+      home(x, 1, 1, 2);
+      b.part("rule(0, 1)", x.rule(0, 1, false), x.rule(0, 1, true), 0, 1);
+      b.part("rule(1, 1)", x.rule(1, 1, false), x.rule(1, 1, true), 1, 2);
+      b.due("best(1)", x.best(1), 1);
+      comes(x, 1, 0, 0, 0, 1);
+      comes(x, 1, 1, 0, 1, 1);
+      home(x, 3, 1, 1);
+      b.part("rule(1, 3)", x.rule(1, 3, false), x.rule(1, 3, true), 7, 8);
+      b.part("rule(0, 3)", x.rule(0, 3, false), x.rule(0, 3, true), 1, 1);
+      b.due("best(3)", x.best(3), 0);
+      b.due("trap(1)", x.trap(1), 0);
+    }
+    StoneHome timed = b.on("row th;kick a 6 by 1 0;kick b 6 by 1 0;drift=if second<5 then which else 1-which;");
+    for (int i = 0; i < 2; i++) {
+      b.due("best(1) in second 0", timed.best(1), 0);
+      b.part("rule(0, 1) in second 0", timed.rule(0, 1, false), timed.rule(0, 1, true), 1, 1);
+      home(timed, 1, 1, 1);
+      timed.waits();
+      timed.first(1, true);
+      timed.undo();
+      b.due("best(1) in second 0 again", timed.best(1), 0);
+      timed.waits();
+      b.due("best(1) in second 5", timed.best(1), 1);
+      b.part("rule(0, 1) in second 5", timed.rule(0, 1, false), timed.rule(0, 1, true), 0, 1);
+      timed.undo();
+      b.part("rule(0, 1) in second 0", timed.rule(0, 1, false), timed.rule(0, 1, true), 1, 1);
+    }
+    StoneHome undone = b.on("row th;kick k 6 by 1 0;drift=if second<5 then 1 else 0;");
+    home(undone, 1, 0, 1);
+    undone.waits();
+    home(undone, 1, 1, 1);
+    undone.undo();
+    home(undone, 1, 0, 1);
   }
 
   private StoneHome least10() {
     return b.on("row th;kick k 1 by 0 0 5 by 1 0;");
   }
 
-  private void home() {
+  private void homeByTheLikeliest() {
     b.says(TERMS, "HOME: how likely it comes home in n at most, if each time that is done (KICKS that can be, by numbers,"
         + " then a WAIT) by which that is likeliest;");
     home(b.on(TEN), 9, 0, 1);
@@ -97,11 +158,14 @@ final class AheadBounds {
     home(b.on("row th;lives 2;kick k 1 by 1 0 5 by 0 1;"), 3, 91, 216);
     home(b.on("row th;lives 2;kick k 1 by 1 0 5 by 0 1;"), 4, 91, 216);
     afterManySteps();
+  }
+
+  private void homeNoneForNoSuchN() {
     b.says("Promise 14", "HOME; NONE: no such n.");
     for (boolean below : new boolean[] {false, true}) {
       b.ends("home", 0, 10, n -> b.on(HALVES).home(n, below));
-      refusedAlways("home(-1)", x -> x.home(-1, below), -1);
-      refusedAlways("home(11)", x -> x.home(11, below), -1);
+      b.refusedAlways("home(-1)", x -> x.home(-1, below), -1);
+      b.refusedAlways("home(11)", x -> x.home(11, below), -1);
     }
   }
 
@@ -124,12 +188,15 @@ final class AheadBounds {
     }
   }
 
-  private void best() {
+  private void bestTheFirstOfAlikeOnes() {
     b.says(TERMS, "BEST: which it is now (of alike ones the first).");
     b.due("all alike", b.on("row ttth;kick a 6 by 0 1;kick b 6 by 1 0;kick c 6 by 0 0;").best(1), 0);
     b.due("two alike", b.on("row tth;kick a 6 by 1 0;kick b 6 by 2 0;kick c 6 by 3 0;").best(1), 1);
     b.due("a kick and a wait alike", b.on("row tth;kick a 6 by 1 1;kick b 6 by 1 0;kick c 6 by 0 0;").best(3), 1);
     b.due("alike are a kick that cannot be, and one that can", b.on("row pth;kick a 3 by 2 0 3 by 2 0;kick b 6 by 2 0;").best(1), 1);
+  }
+
+  private void bestOfAWaitIsHowManyKicks() {
     b.says("Promise 15", "BEST: the KICK, how many KICKS there are for a WAIT;");
     StringBuilder kicks = new StringBuilder();
     for (int n = 1; n <= 4; n++) {
@@ -140,16 +207,22 @@ final class AheadBounds {
     b.due("only a wait can be", b.on("row pth;kick a 3 by 2 0 3 by 2 0;").best(1), 1);
     b.due("best(9)", b.on(TEN).best(9), 0);
     b.due("best(10)", b.on(TEN).best(10), 1);
-    b.says("Promise 15", "-2: HOME, LOST;");
-    refusedWhenOver("best(1)", x -> x.best(1), -2);
-    refusedWhenOver("best(10)", x -> x.best(10), -2);
-    b.says("Promise 15", "NONE: no such n (1 .. 10).");
-    b.ends("best", 1, 10, n -> b.on(HALVES).best(n));
-    refusedAlways("best(0)", x -> x.best(0), -1);
-    refusedAlways("best(11)", x -> x.best(11), -1);
   }
 
-  private void sure() {
+  private void bestWhenHomeOrLost() {
+    b.says("Promise 15", "-2: HOME, LOST;");
+    b.refusedWhenOver("best(1)", x -> x.best(1), -2);
+    b.refusedWhenOver("best(10)", x -> x.best(10), -2);
+  }
+
+  private void bestNoneForNoSuchN() {
+    b.says("Promise 15", "NONE: no such n (1 .. 10).");
+    b.ends("best", 1, 10, n -> b.on(HALVES).best(n));
+    b.refusedAlways("best(0)", x -> x.best(0), -1);
+    b.refusedAlways("best(11)", x -> x.best(11), -1);
+  }
+
+  private void sureIfItCanBeMadeSure() {
     b.says(TERMS, "SURE: whether it can be made sure.");
     b.due("5 of 6", b.on("row th;kick k 5 by 1 0 1 by 0 0;").sure(1), 0);
     b.due("nearly", b.on("row th;kick k 5 by 1 0 1 by 0 0;").sure(10), 0);
@@ -158,6 +231,9 @@ final class AheadBounds {
     b.due("of two kicks one is sure", b.on("row th;kick k 5 by 1 0 1 by 0 1;kick l 6 by 1 0;").sure(1), 1);
     b.due("sure(9)", b.on(TEN).sure(9), 0);
     b.due("sure(10)", b.on(TEN).sure(10), 1);
+  }
+
+  private void sureIs1Else0() {
     b.says("Promise 16", "SURE: 1, else 0;");
     StoneHome there = b.on("row tth;stone 2 0 0;kick k 6 by 1 0;");
     b.due("home already", there.sure(0), 1);
@@ -167,13 +243,16 @@ final class AheadBounds {
     lost.kick(0);
     b.due("lost", lost.sure(0), 0);
     b.due("lost", lost.sure(10), 0);
-    b.says("Promise 16", "NONE: no such n.");
-    b.ends("sure", 0, 10, n -> b.on(HALVES).sure(n));
-    refusedAlways("sure(-1)", x -> x.sure(-1), -1);
-    refusedAlways("sure(11)", x -> x.sure(11), -1);
   }
 
-  private void least() {
+  private void sureNoneForNoSuchN() {
+    b.says("Promise 16", "NONE: no such n.");
+    b.ends("sure", 0, 10, n -> b.on(HALVES).sure(n));
+    b.refusedAlways("sure(-1)", x -> x.sure(-1), -1);
+    b.refusedAlways("sure(11)", x -> x.sure(11), -1);
+  }
+
+  private void leastIsTheFewest() {
     b.says(TERMS, "LEAST: the fewest so that HOME is p hundredths or more.");
     int[] sixteenths = {0, 0, 0, 2, 5, 8};
     StoneHome halves = b.on(HALVES);
@@ -188,28 +267,37 @@ final class AheadBounds {
     StoneHome third = b.on("row th;kick k 2 by 1 0 4 by 0 1;");
     b.due("33 of a third", third.least(33), 1);
     b.due("34 of a third", third.least(34), -2);
+  }
+
+  private void leastIs10AtMost() {
     b.says("Promise 17", "LEAST (p 0 .. 100), 10 at most;");
-    b.due("nothing wanted", halves.least(0), 0);
+    b.due("nothing wanted", b.on(HALVES).least(0), 0);
     b.due("all wanted, in ten", b.on(TEN).least(100), 10);
     b.due("1 wanted, in ten", b.on(TEN).least(1), 10);
     b.due("home already", b.on("row tth;stone 2 0 0;kick k 6 by 1 0;").least(100), 0);
+  }
+
+  private void leastNotByThese() {
     b.says("Promise 17", "-2: not by these;");
     b.due("in eleven", b.on(ELEVEN).least(1), -2);
     b.due("in eleven, nothing wanted", b.on(ELEVEN).least(0), 0);
-    b.due("94 of 121 by 128", halves.least(94), 10);
-    b.due("95 of 121 by 128", halves.least(95), -2);
-    b.due("never all", halves.least(100), -2);
+    b.due("94 of 121 by 128", b.on(HALVES).least(94), 10);
+    b.due("95 of 121 by 128", b.on(HALVES).least(95), -2);
+    b.due("never all", b.on(HALVES).least(100), -2);
     StoneHome lost = b.on("row tth;kick k 6 by 1 1;");
     lost.kick(0);
     b.due("lost", lost.least(1), -2);
     b.due("lost, nothing wanted", lost.least(0), 0);
-    b.says("Promise 17", "NONE: no such p.");
-    b.ends("least", 0, 100, p -> b.on(HALVES).least(p));
-    refusedAlways("least(-1)", x -> x.least(-1), -1);
-    refusedAlways("least(101)", x -> x.least(101), -1);
   }
 
-  private void rule() {
+  private void leastNoneForNoSuchP() {
+    b.says("Promise 17", "NONE: no such p.");
+    b.ends("least", 0, 100, p -> b.on(HALVES).least(p));
+    b.refusedAlways("least(-1)", x -> x.least(-1), -1);
+    b.refusedAlways("least(101)", x -> x.least(101), -1);
+  }
+
+  private void ruleAlwaysTheSameKick() {
     b.says(TERMS, "RULE: how likely if always the same KICK is done (a WAIT where it cannot be).");
     StoneHome x = b.on("row tpth;kick a 6 by 1 0;kick b 3 by 1 0 3 by 3 0;");
     b.part("rule(0, 2)", x.rule(0, 2, false), x.rule(0, 2, true), 0, 1);
@@ -220,14 +308,17 @@ final class AheadBounds {
     b.part("it waits until it is lost", barred.comes(0, 4, 0, 0, false), barred.comes(0, 4, 0, 0, true), 1, 1);
     b.part("it waits until it is lost", barred.comes(0, 5, 0, 0, false), barred.comes(0, 5, 0, 0, true), 0, 1);
     b.part("in ten", b.on(TEN).rule(0, 10, false), b.on(TEN).rule(0, 10, true), 0, 1);
+  }
+
+  private void ruleNoneForNoSuchOnes() {
     b.says("Promise 18", "RULE; NONE: no such ones.");
     for (boolean below : new boolean[] {false, true}) {
       b.ends("rule's kick", 0, 3, kick -> b.on(FOUR_KICKS).rule(kick, 1, below));
       b.ends("rule's n", 0, 10, n -> b.on(FOUR_KICKS).rule(3, n, below));
-      refusedAlways("rule(-1, 1)", y -> y.rule(-1, 1, below), -1);
-      refusedAlways("rule(3, 1)", y -> y.rule(3, 1, below), -1);
-      refusedAlways("rule(0, -1)", y -> y.rule(0, -1, below), -1);
-      refusedAlways("rule(0, 11)", y -> y.rule(0, 11, below), -1);
+      b.refusedAlways("rule(-1, 1)", y -> y.rule(-1, 1, below), -1);
+      b.refusedAlways("rule(3, 1)", y -> y.rule(3, 1, below), -1);
+      b.refusedAlways("rule(0, -1)", y -> y.rule(0, -1, below), -1);
+      b.refusedAlways("rule(0, 11)", y -> y.rule(0, 11, below), -1);
     }
   }
 
@@ -239,7 +330,7 @@ final class AheadBounds {
         x.comes(0, n, along, across, true), above, below);
   }
 
-  private void comes() {
+  private void comesBehindJustN() {
     b.says(TERMS, "COMES: how likely it lies on a SQUARE (not LOST) behind just n by the RULE.");
     StoneHome x = b.on("row tth;row ggg;kick a 3 by 1 0 2 by 0 0 1 by 0 1;lives 1;");
     comes(x, 0, 0, 0, 1, 1);
@@ -253,16 +344,19 @@ final class AheadBounds {
     StoneHome lost = b.on("row tt;kick a 3 by 0 0 3 by 0 1;");
     comes(lost, 1, 0, 0, 1, 2);
     comes(lost, 10, 0, 0, 1, 1024);
+  }
+
+  private void comesNoneForNoSuchOnes() {
     b.says("Promise 19", "COMES; NONE: no such ones.");
     for (boolean below : new boolean[] {false, true}) {
       b.ends("comes' kick", 0, 3, kick -> b.on(FOUR_KICKS).comes(kick, 1, 0, 0, below));
       b.ends("comes' n", 0, 10, n -> b.on(FOUR_KICKS).comes(0, n, 0, 0, below));
       b.ends("comes' along", 0, 3, along -> b.on(FOUR_KICKS).comes(0, 0, along, 1, below));
       b.ends("comes' across", 0, 1, across -> b.on(FOUR_KICKS).comes(0, 0, 3, across, below));
-      refusedAlways("comes' kick", y -> y.comes(3, 0, 0, 0, below), -1);
-      refusedAlways("comes' n", y -> y.comes(0, 11, 0, 0, below), -1);
-      refusedAlways("comes' along", y -> y.comes(0, 0, 6, 0, below), -1);
-      refusedAlways("comes' across", y -> y.comes(0, 0, 0, 2, below), -1);
+      b.refusedAlways("comes' kick", y -> y.comes(3, 0, 0, 0, below), -1);
+      b.refusedAlways("comes' n", y -> y.comes(0, 11, 0, 0, below), -1);
+      b.refusedAlways("comes' along", y -> y.comes(0, 0, 6, 0, below), -1);
+      b.refusedAlways("comes' across", y -> y.comes(0, 0, 0, 2, below), -1);
     }
   }
 
@@ -270,7 +364,7 @@ final class AheadBounds {
     b.part("worth(" + n + ", " + life + ")", x.worth(n, life, false), x.worth(n, life, true), above, below);
   }
 
-  private void worth() {
+  private void worthOfALifeOrATouch() {
     b.says(TERMS, "WORTH: HOME with a LIFE more, or with it laid by a TOUCH on that SQUARE by which HOME is likeliest (or by none),"
         + " less HOME as it is (0, if it is HOME or LOST).");
     for (int lives = 0; lives <= 2; lives++) {
@@ -291,13 +385,16 @@ final class AheadBounds {
     worth(b.on("row gwg;row wth;row gwg;stone 1 1 0;friend 1 1 0;kick k 6 by 0 0;"), 0, false, 1, 1);
     worth(b.on("row gwg;row wtw;row gwg;stone 1 1 0;friend 1 1 0;kick k 6 by 0 0;"), 10, false, 0, 1);
     noneByATouchWhenItIsWorse();
+  }
+
+  private void worthNoneForNoSuchN() {
     b.says("Promise 20", "WORTH of a TOUCH (or of a LIFE); NONE: no such n.");
     worthWhenOver();
     for (boolean life : new boolean[] {false, true}) {
       for (boolean below : new boolean[] {false, true}) {
         b.ends("worth", 0, 10, n -> b.on(HALVES).worth(n, life, below));
-        refusedAlways("worth(-1)", x -> x.worth(-1, life, below), -1);
-        refusedAlways("worth(11)", x -> x.worth(11, life, below), -1);
+        b.refusedAlways("worth(-1)", x -> x.worth(-1, life, below), -1);
+        b.refusedAlways("worth(11)", x -> x.worth(11, life, below), -1);
       }
     }
   }
@@ -323,7 +420,7 @@ final class AheadBounds {
     }
   }
 
-  private void face() {
+  private void faceWithWhichHomeIsLikeliest() {
     b.says(TERMS, "FACE: that with which, as it lies, HOME is likeliest; of alike ones the first.");
     for (int good = 0; good < 3; good++) {
       String drift = "drift=if face<" + good + " then 1 else if " + good + "<face then 1 else 0;";
@@ -337,16 +434,22 @@ final class AheadBounds {
     b.due("one face", b.on(HALVES).face(10), 0);
     StoneHome fewer = b.on("row th;faces 2;kick k 6 by 1 0;drift=if face<2 then 1 else 0;");
     b.due("no face beyond FACES", fewer.face(1), 0);
-    b.says("Promise 21", "FACE; -2: HOME, LOST;");
-    refusedWhenOver("face(0)", x -> x.face(0), -2);
-    refusedWhenOver("face(10)", x -> x.face(10), -2);
-    b.says("Promise 21", "NONE: no such n.");
-    b.ends("face", 0, 10, n -> b.on(HALVES).face(n));
-    refusedAlways("face(-1)", x -> x.face(-1), -1);
-    refusedAlways("face(11)", x -> x.face(11), -1);
   }
 
-  private void side() {
+  private void faceWhenHomeOrLost() {
+    b.says("Promise 21", "FACE; -2: HOME, LOST;");
+    b.refusedWhenOver("face(0)", x -> x.face(0), -2);
+    b.refusedWhenOver("face(10)", x -> x.face(10), -2);
+  }
+
+  private void faceNoneForNoSuchN() {
+    b.says("Promise 21", "NONE: no such n.");
+    b.ends("face", 0, 10, n -> b.on(HALVES).face(n));
+    b.refusedAlways("face(-1)", x -> x.face(-1), -1);
+    b.refusedAlways("face(11)", x -> x.face(11), -1);
+  }
+
+  private void sideByHome() {
     b.says(TERMS, "SIDE: the ROW in which, as far ALONG as now, it would best lie (a SQUARE that is no gutter, no wall): by HOME;"
         + " of alike ones the first.");
     for (int good = 0; good < 4; good++) {
@@ -363,16 +466,22 @@ final class AheadBounds {
     b.due("home itself", b.on("row t;row t;row t;row h;kick k 6 by 0 0;").side(0), 3);
     b.due("with the face that it has", b.on("row th;row tt;faces 2;stone 0 0 1;kick k 6 by 1 0;drift=0-face;").side(1), 1);
     b.due("one row", b.on(HALVES).side(10), 0);
-    b.says("Promise 22", "SIDE; -2: HOME, LOST;");
-    refusedWhenOver("side(0)", x -> x.side(0), -2);
-    refusedWhenOver("side(10)", x -> x.side(10), -2);
-    b.says("Promise 22", "NONE: no such n.");
-    b.ends("side", 0, 10, n -> b.on(HALVES).side(n));
-    refusedAlways("side(-1)", x -> x.side(-1), -1);
-    refusedAlways("side(11)", x -> x.side(11), -1);
   }
 
-  private void goBy() {
+  private void sideWhenHomeOrLost() {
+    b.says("Promise 22", "SIDE; -2: HOME, LOST;");
+    b.refusedWhenOver("side(0)", x -> x.side(0), -2);
+    b.refusedWhenOver("side(10)", x -> x.side(10), -2);
+  }
+
+  private void sideNoneForNoSuchN() {
+    b.says("Promise 22", "NONE: no such n.");
+    b.ends("side", 0, 10, n -> b.on(HALVES).side(n));
+    b.refusedAlways("side(-1)", x -> x.side(-1), -1);
+    b.refusedAlways("side(11)", x -> x.side(11), -1);
+  }
+
+  private void goBy0To5Waits() {
     b.says(TERMS, "GO BY: how many WAITS first (0 .. 5), so that HOME in n more KICKS or WAITS behind them is likeliest"
         + " (if it is LOST meanwhile, so it is); of alike ones the fewest.");
     for (int waits = 0; waits <= 6; waits++) {
@@ -391,16 +500,22 @@ final class AheadBounds {
     b.due("two lives less meanwhile", b.on("row th;kick k 6 by 1 0;lives 2;" + twice).goBy(1), 3);
     String last = "drift=if second<10 then 1 else 0;cars=if second<10 then 0 else if 10<second then 0 else 1;";
     b.due("lost by the last of them", b.on("row th;kick k 6 by 1 0;" + last).goBy(1), 0);
-    b.says("Promise 23", "GO BY; -2: HOME, LOST;");
-    refusedWhenOver("goBy(0)", x -> x.goBy(0), -2);
-    refusedWhenOver("goBy(10)", x -> x.goBy(10), -2);
-    b.says("Promise 23", "NONE: no such n.");
-    b.ends("goBy", 0, 10, n -> b.on(HALVES).goBy(n));
-    refusedAlways("goBy(-1)", x -> x.goBy(-1), -1);
-    refusedAlways("goBy(11)", x -> x.goBy(11), -1);
   }
 
-  private void plan() {
+  private void goByWhenHomeOrLost() {
+    b.says("Promise 23", "GO BY; -2: HOME, LOST;");
+    b.refusedWhenOver("goBy(0)", x -> x.goBy(0), -2);
+    b.refusedWhenOver("goBy(10)", x -> x.goBy(10), -2);
+  }
+
+  private void goByNoneForNoSuchN() {
+    b.says("Promise 23", "NONE: no such n.");
+    b.ends("goBy", 0, 10, n -> b.on(HALVES).goBy(n));
+    b.refusedAlways("goBy(-1)", x -> x.goBy(-1), -1);
+    b.refusedAlways("goBy(11)", x -> x.goBy(11), -1);
+  }
+
+  private void planWithWhatIsNow() {
     b.says(TERMS, "PLAN: for each SQUARE, by ALONG, ACROSS, with the FACE and the LIVES that are now, in the second that is now:"
         + " BEST there.");
     StoneHome face = b.on("row tt;row th;faces 2;kick a 6 by 1 0;kick b 6 by 1 0 turn 1;kick c 6 by 1 -1;drift=face;stone 0 0 1;");
@@ -412,6 +527,9 @@ final class AheadBounds {
     b.due("in the second that is now", second.plan(1, 0, 0), 0);
     second.waits();
     b.due("in the second that is now", second.plan(1, 0, 0), 1);
+  }
+
+  private void planAsBest() {
     b.says("Promise 24", "PLAN for a SQUARE: as best();");
     b.due("a wait", b.on(TEN).plan(10, 0, 0), 1);
     b.due("none helps", b.on(TEN).plan(9, 0, 0), 0);
@@ -421,6 +539,9 @@ final class AheadBounds {
     StoneHome lost = b.on("row tth;kick a 6 by 1 1;kick b 6 by 1 0;");
     lost.kick(0);
     b.due("it is lost itself", lost.plan(1, 1, 0), 1);
+  }
+
+  private void planOfHomeGutterWall() {
     b.says("Promise 24", "-2: home, a gutter, a wall;");
     String sorts = "row tcspgwh;kick a 6 by 0 0;";
     for (int n = 1; n <= 10; n += 9) {
@@ -428,20 +549,23 @@ final class AheadBounds {
         b.due("plan(" + n + ", " + along + ", 0)", b.on(sorts).plan(n, along, 0), along <= 3 ? 0 : -2);
       }
     }
+  }
+
+  private void planNoneForNoSuchOnes() {
     b.says("Promise 24", "NONE: no such ones (n 1 .. 10).");
     b.ends("plan's n", 1, 10, n -> b.on(FOUR_KICKS).plan(n, 0, 0));
     b.ends("plan's n at home", 1, 10, n -> b.on(FOUR_KICKS).plan(n, 3, 1));
     b.ends("plan's along", 0, 3, along -> b.on(FOUR_KICKS).plan(1, along, 0));
     b.ends("plan's across", 0, 1, across -> b.on(FOUR_KICKS).plan(1, 3, across));
-    refusedAlways("plan(0, 0, 0)", x -> x.plan(0, 0, 0), -1);
-    refusedAlways("plan(11, 0, 0)", x -> x.plan(11, 0, 0), -1);
-    refusedAlways("plan(1, -1, 0)", x -> x.plan(1, -1, 0), -1);
-    refusedAlways("plan(1, 0, -1)", x -> x.plan(1, 0, -1), -1);
-    refusedAlways("plan(1, 0, 2)", x -> x.plan(1, 0, 2), -1);
-    refusedAlways("plan(1, 6, 0)", x -> x.plan(1, 6, 0), -1);
+    b.refusedAlways("plan(0, 0, 0)", x -> x.plan(0, 0, 0), -1);
+    b.refusedAlways("plan(11, 0, 0)", x -> x.plan(11, 0, 0), -1);
+    b.refusedAlways("plan(1, -1, 0)", x -> x.plan(1, -1, 0), -1);
+    b.refusedAlways("plan(1, 0, -1)", x -> x.plan(1, 0, -1), -1);
+    b.refusedAlways("plan(1, 0, 2)", x -> x.plan(1, 0, 2), -1);
+    b.refusedAlways("plan(1, 6, 0)", x -> x.plan(1, 6, 0), -1);
   }
 
-  private void trap() {
+  private void trapWithEachFace() {
     b.says(TERMS, "TRAP: how many SQUARES there are (no gutters, no walls) from which HOME is 0 by 1 with each FACE, so.");
     StoneHome x = b.on("row tttttttt;row tttttttt;row tttttttt;row ttttgwth;kick k 6 by 1 0;");
     b.due("in 0 all but home", x.trap(0), 29);
@@ -454,16 +578,21 @@ final class AheadBounds {
       b.due("one face is enough", b.on("row th;faces 3;kick k 6 by 1 0;" + drift).trap(1), 0);
     }
     trapWithTheLivesThatAreNow();
+    b.due("the next square is no face of it", b.on("row tth;faces 3;kick k 6 by 1 0;").trap(1), 1);
+    b.due("the next square is no face of it", b.on("row tttttttt;row htttttth;faces 3;kick k 6 by 1 0;").trap(1), 13);
     StoneHome late = b.on("row th;kick k 6 by 1 0;drift=if second<5 then 0 else 1;");
     b.due("in the second that is now", late.trap(1), 0);
     late.waits();
     b.due("in the second that is now", late.trap(1), 1);
+  }
+
+  private void trapNoneForNoSuchN() {
     b.says("Promise 25", "TRAP; NONE: no such n.");
     StoneHome there = b.on("row tth;kick k 6 by 1 0;stone 2 0 0;");
     b.due("it is home itself", there.trap(1), 1);
     b.ends("trap", 0, 10, n -> b.on(HALVES).trap(n));
-    refusedAlways("trap(-1)", y -> y.trap(-1), -1);
-    refusedAlways("trap(11)", y -> y.trap(11), -1);
+    b.refusedAlways("trap(-1)", y -> y.trap(-1), -1);
+    b.refusedAlways("trap(11)", y -> y.trap(11), -1);
   }
 
   /** The traffic of second 10 takes a life, and the kick is free from second 15 on. */
@@ -483,7 +612,43 @@ final class AheadBounds {
     b.part("first(" + n + ") on " + text, x.first(n, false), x.first(n, true), above, below);
   }
 
-  private void first() {
+  /** A leap of two more in just one of the seconds 0, 5, 10, 15, mine or his; he comes nowhere by it. */
+  private void firstAsTheSecondsGo() {
+    String leap = "kick k 6 by 1 0;runs=if second<# then 0 else if #<second then 0 else 2;";
+    first("row ttttth;" + leap.replace("#", "0"), 3, 1, 1);
+    first("row tttttth;" + leap.replace("#", "0"), 3, 0, 1);
+    first("row ttttth;" + leap.replace("#", "10"), 3, 1, 1);
+    first("row ttttth;" + leap.replace("#", "20"), 3, 1, 1);
+    first("row ttttth;" + leap.replace("#", "15"), 3, 0, 1);
+    first("row ttttttth;stone 5 0 0;" + leap.replace("#", "5"), 2, 1, 1);
+    first("row ttttttth;stone 4 0 0;" + leap.replace("#", "15"), 3, 1, 1);
+    first("row ttttttth;stone 4 0 0;friend 3 0 0;" + leap.replace("#", "5"), 3, 0, 1);
+    first("row ttttttth;stone 4 0 0;friend 3 0 0;" + leap.replace("#", "10"), 3, 1, 1);
+    first("row tth;stone 1 0 0;friend 1 0 0;kick k 6 by 1 0;runs=if along<1 then 4 else 0-4;", 2, 1, 1);
+    first("row tttth;kick k 6 by 1 0;cars=1;", 3, 0, 1);
+    first("row tttth;row tttth;stone 2 0 0;friend 3 1 0;kick k 6 by 1 0;cars=across;drift=across;", 1, 0, 1);
+    first("row tttth;row tttth;stone 2 0 0;friend 3 1 0;kick k 6 by 1 0;cars=across;drift=across;", 2, 1, 1);
+    first("row tttth;row tttth;stone 2 0 0;friend 3 1 0;kick k 3 by 1 0 3 by 0 0;cars=across;drift=across;", 3, 1, 2);
+    StoneHome later = b.on("row ttttth;" + leap.replace("#", "15"));
+    b.part("first(3) in second 0", later.first(3, false), later.first(3, true), 0, 1);
+    later.waits();
+    b.part("first(3) in second 5", later.first(3, false), later.first(3, true), 1, 1);
+  }
+
+  private void firstFromWhereItCannotBe() {
+    String kicks = "tth;kick a 3 by 2 0 3 by 2 0;kick b 6 by 1 0;";
+    StoneHome x = b.on("row t" + kicks.substring(1));
+    b.part("first(1) from tar", x.first(1, false), x.first(1, true), 1, 1);
+    Checks.read(x, "row p" + kicks.substring(1));
+    b.part("first(1) by a car that stands", x.first(1, false), x.first(1, true), 0, 1);
+    b.part("first(2) by a car that stands, his too", x.first(2, false), x.first(2, true), 1, 1);
+    StoneHome his = b.on("row ttth;row tttt;friend 2 1 0;kick k 6 by 1 0;");
+    b.part("his comes nowhere", his.first(3, false), his.first(3, true), 1, 1);
+    Checks.read(his, "row ttth;row tthh;friend 2 1 0;kick k 6 by 1 0;");
+    b.part("his is home from the beginning", his.first(3, false), his.first(3, true), 0, 1);
+  }
+
+  private void firstByTurns() {
     b.says(TERMS, "FIRST with the friend by turns, n KICKS or WAITS each at most (1 .. 3), mine first, LIVES for none,"
         + " TAKES seconds for each turn: how likely mine is home ahead of his, if I do that by which this is likeliest,"
         + " and he that by which it is least.");
@@ -512,18 +677,26 @@ final class AheadBounds {
     first("row ttth;kick a 6 by 1 0;friend 3 0 0;", 3, 0, 1);
     first("row tth;kick a 6 by 1 0;kick b 6 by 2 0;friend 0 0 0;", 1, 1, 1);
     first("row tth;row tgh;kick a 3 by 1 0 3 by 0 0;kick b 6 by 2 0;friend 0 1 0;drift=0;runs=if across<1 then 0-1 else 0;", 3, 0, 1);
+    firstAsTheSecondsGo();
+    firstFromWhereItCannotBe();
+  }
+
+  private void firstWhenMineIsHomeOrLost() {
     b.says("Promise 26", "FIRST; -2: mine is HOME, LOST;");
     for (boolean below : new boolean[] {false, true}) {
       for (int n = 1; n <= 3; n++) {
         int turns = n;
-        refusedWhenOver("first(" + n + ")", x -> x.first(turns, below), -2);
+        b.refusedWhenOver("first(" + n + ")", x -> x.first(turns, below), -2);
       }
     }
+  }
+
+  private void firstNoneForNoSuchN() {
     b.says("Promise 26", "NONE: no such n.");
     for (boolean below : new boolean[] {false, true}) {
       b.ends("first", 1, 3, n -> b.on(HALVES).first(n, below));
-      refusedAlways("first(0)", x -> x.first(0, below), -1);
-      refusedAlways("first(4)", x -> x.first(4, below), -1);
+      b.refusedAlways("first(0)", x -> x.first(0, below), -1);
+      b.refusedAlways("first(4)", x -> x.first(4, below), -1);
     }
   }
 }

