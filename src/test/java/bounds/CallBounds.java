@@ -1,3 +1,5 @@
+import java.nio.charset.StandardCharsets;
+
 /** The promises 1 to 13: the tape, what is now, what is done by hand. */
 final class CallBounds {
   private static final String BASE = "row th;kick k 6 by 1 0;";
@@ -122,7 +124,7 @@ final class CallBounds {
     b.due("the last one", x.back(1), 0);
     Scenes.fill(x, 2000);
     b.due("all of 2,000", x.back(2000), 0);
-    Checks.feed(x, (BASE + "###").getBytes(java.nio.charset.StandardCharsets.ISO_8859_1));
+    Checks.feed(x, (BASE + "###").getBytes(StandardCharsets.ISO_8859_1));
     b.due("the last ones", x.back(3), BASE.length());
     b.due("the rest is as it was", x.read(), 0);
     nothingBehindTheEndIsRead();
@@ -144,13 +146,12 @@ final class CallBounds {
     int[] faults = {1, 1, 1, 1, 0, 0};
     for (int i = 0; i < texts.length; i++) {
       StoneHome x = new StoneHome();
-      int[] words = new int[5];
       int left = texts[i].length() - gone[i];
-      Checks.feed(x, texts[i].getBytes(java.nio.charset.StandardCharsets.ISO_8859_1));
+      Checks.feed(x, texts[i].getBytes(StandardCharsets.ISO_8859_1));
       b.due("back", x.back(gone[i]), left);
       b.due("read of what is left of " + texts[i], x.read(), faults[i]);
       b.due("its place", x.place(), faults[i] == 0 ? -1 : left);
-      b.due("behind that from empty", x.feed(words[0], words[1], words[2], words[3], words[4]), 20);
+      b.due("behind that from empty", x.feed(0, 0, 0, 0, 0), 20);
     }
   }
 

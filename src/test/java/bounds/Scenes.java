@@ -1,3 +1,4 @@
+import java.nio.charset.StandardCharsets;
 import java.util.List;
 import java.util.function.Consumer;
 
@@ -28,7 +29,7 @@ final class Scenes {
     x.touch(0);
     x.tell(1, 0);
     x.tell(2, 0);
-    Checks.feed(x, ON_TAPE.getBytes(java.nio.charset.StandardCharsets.ISO_8859_1));
+    Checks.feed(x, ON_TAPE.getBytes(StandardCharsets.ISO_8859_1));
   }
 
   /** By the car that stands at 3, 0. */
