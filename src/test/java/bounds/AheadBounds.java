@@ -629,6 +629,10 @@ final class AheadBounds {
     first("row tttth;row tttth;stone 2 0 0;friend 3 1 0;kick k 6 by 1 0;cars=across;drift=across;", 1, 0, 1);
     first("row tttth;row tttth;stone 2 0 0;friend 3 1 0;kick k 6 by 1 0;cars=across;drift=across;", 2, 1, 1);
     first("row tttth;row tttth;stone 2 0 0;friend 3 1 0;kick k 3 by 1 0 3 by 0 0;cars=across;drift=across;", 3, 1, 2);
+    // A choice where the document is silent: the turn of his lost stone goes by, and takes its seconds.
+    String lost = "row ttttth;row tttttt;friend 0 1 0;cars=across;";
+    first(lost + leap.replace("#", "20"), 3, 1, 1);
+    first(lost + leap.replace("#", "15"), 3, 0, 1);
     StoneHome later = b.on("row ttttth;" + leap.replace("#", "15"));
     b.part("first(3) in second 0", later.first(3, false), later.first(3, true), 0, 1);
     later.waits();
