@@ -7,14 +7,16 @@ import java.nio.charset.StandardCharsets;
 import java.nio.file.Files;
 import java.nio.file.Path;
 import java.util.Arrays;
+import java.util.HashSet;
+import java.util.List;
 import java.util.Set;
 import java.util.TreeSet;
-import java.util.regex.Matcher;
 import java.util.regex.Pattern;
 
-/** What of LANGUAGE.md can be seen from the outside: the face, the words that are not used, the sizes. */
+/** What of LANGUAGE.md can be seen: in the class file, and in the source as the compiler sees it. WildTest has rules 7 and 13. */
 public final class LanguageTest {
   private static final Checks CHECKS = new Checks("LanguageTest");
+  private static final Path PLACE = Path.of("src/main/java/StoneHome.java");
 
   private static final Set<String> FACE = Set.of("int feed(int,int,int,int,int)", "int back(int)", "int read()",
       "int place()", "int now(int)", "int square(int,int)", "int cars(int,int,int)", "int kick(int)", "int waits()",
@@ -24,21 +26,32 @@ public final class LanguageTest {
       "int trap(int)", "int first(int,boolean)", "int can()", "int tell(int,int)", "int forget()", "int fits(int,int)",
       "int often(int,int)", "boolean hold(int)", "boolean restore(int)", "int count(int)");
 
-  private static final String[] NEVER = {"throw", "throws", "try", "catch", "finally", "synchronized", "assert", "float",
-      "double", "Object", "System\\.out", "protected", "->", "::", "@", "\\]\\s*\\[\\s*\\]\\s*\\[", "hashCode", "toString",
-      "\\w+Exact", "volatile", "transient", "native", "import static", "\\bvar\\b", "var "};
+  private static final Set<String> PLAIN_TYPES = Set.of("int", "long", "short", "byte", "char", "boolean", "void",
+      "java.lang.String", "java.lang.StringBuilder");
+  private static final Set<String> LIBRARY = Set.of("java.lang.String.length()", "java.lang.String.charAt(int)",
+      "java.lang.String.indexOf(int)", "java.lang.Math.max(int,int)", "java.lang.Math.min(int,int)",
+      "java.lang.System.arraycopy(java.lang.Object,int,java.lang.Object,int,int)", "java.util.Arrays.fill(int[],int)");
 
   public static void main(String[] args) throws IOException {
-    faceStands();
-    insideIsStatic();
-    wordsAreNotUsed();
-    methodsAreShort();
+    Source source = Source.read(PLACE);
+    face();
+    classesInside();
+    types(source);
+    library(source);
+    for (String outside : source.outside) {
+      CHECKS.due("rules 2, 3, 5, 6, 9, 10: " + outside, true, false);
+    }
+    divisions(source);
+    depths(source);
+    sizes(source);
+    making(source);
+    text();
     CHECKS.end();
   }
 
-  private static void faceStands() {
+  private static void face() {
     Class<?> stone = StoneHome.class;
-    CHECKS.due("public and final", Modifier.isPublic(stone.getModifiers()) && Modifier.isFinal(stone.getModifiers()), true);
+    CHECKS.due("rule 1: public and final", Modifier.isPublic(stone.getModifiers()) && Modifier.isFinal(stone.getModifiers()), true);
     Set<String> open = new TreeSet<>();
     Set<String> names = new TreeSet<>();
     for (Method m : stone.getDeclaredMethods()) {
@@ -47,78 +60,102 @@ public final class LanguageTest {
         names.add(m.getName());
       }
     }
-    CHECKS.due("the face is " + open, open.equals(new TreeSet<>(FACE)), true);
+    CHECKS.due("rule 1: the face is " + open, open.equals(new TreeSet<>(FACE)), true);
     for (Method m : stone.getDeclaredMethods()) {
       boolean isPrivate = Modifier.isPrivate(m.getModifiers());
-      CHECKS.due(m.getName() + " is private or of the face", isPrivate || FACE.contains(told(m)), true);
-      CHECKS.due(m.getName() + " bears no name of the face", isPrivate && names.contains(m.getName()), false);
+      CHECKS.due("rule 1: " + m.getName() + " is private or of the face", isPrivate || FACE.contains(told(m)), true);
+      CHECKS.due("rule 1: " + m.getName() + " bears no name of the face", isPrivate && names.contains(m.getName()), false);
     }
     for (Field f : stone.getDeclaredFields()) {
-      CHECKS.due(f.getName() + " is private or NONE", Modifier.isPrivate(f.getModifiers()) || f.getName().equals("NONE"), true);
+      CHECKS.due("rule 1: " + f.getName() + " is private or NONE", Modifier.isPrivate(f.getModifiers()) || f.getName().equals("NONE"), true);
     }
     Constructor<?>[] made = stone.getDeclaredConstructors();
-    CHECKS.due("one constructor without arguments", made.length == 1 && made[0].getParameterCount() == 0, true);
+    CHECKS.due("rule 1: one constructor without arguments", made.length == 1 && made[0].getParameterCount() == 0, true);
   }
 
   private static String told(Method m) {
-    StringBuilder types = new StringBuilder();
-    for (Class<?> type : m.getParameterTypes()) {
-      types.append(types.length() == 0 ? "" : ",").append(type.getSimpleName());
-    }
-    return m.getReturnType().getSimpleName() + " " + m.getName() + "(" + types + ")";
+    List<String> types = Arrays.stream(m.getParameterTypes()).map(Class::getSimpleName).toList();
+    return m.getReturnType().getSimpleName() + " " + m.getName() + "(" + String.join(",", types) + ")";
   }
 
-  private static void insideIsStatic() {
+  private static void classesInside() {
     Class<?>[] inside = StoneHome.class.getDeclaredClasses();
-    CHECKS.due("classes", inside.length <= 11, true);
+    CHECKS.due("rule 11: classes", inside.length + 1 <= 12, true);
+    fields(StoneHome.class);
     for (Class<?> c : inside) {
-      CHECKS.due(c + " is static", Modifier.isStatic(c.getModifiers()), true);
-      CHECKS.due(c + " is neither public nor protected", (c.getModifiers() & (Modifier.PUBLIC | Modifier.PROTECTED)) == 0, true);
-      sizes(c);
+      CHECKS.due("rule 1: " + c + " is static", Modifier.isStatic(c.getModifiers()), true);
+      CHECKS.due("rule 1: " + c + " is neither public nor protected", (c.getModifiers() & (Modifier.PUBLIC | Modifier.PROTECTED)) == 0, true);
+      fields(c);
+      for (Method m : c.getDeclaredMethods()) {
+        boolean named = FACE.stream().anyMatch(f -> f.contains(" " + m.getName() + "("));
+        CHECKS.due("rule 1: " + m + " bears no name of the face", named, false);
+      }
     }
-    sizes(StoneHome.class);
   }
 
-  private static void sizes(Class<?> c) {
+  private static void fields(Class<?> c) {
     long fields = Arrays.stream(c.getDeclaredFields()).filter(f -> !Modifier.isStatic(f.getModifiers())).count();
-    CHECKS.due(c + " has few fields", fields <= 20, true);
-    for (Field f : c.getDeclaredFields()) {
-      boolean changing = Modifier.isStatic(f.getModifiers()) && !Modifier.isFinal(f.getModifiers());
-      CHECKS.due(f + " is no state of the class", changing, false);
-    }
+    CHECKS.due("rule 11: " + c + " has few fields", fields <= 20, true);
     for (Method m : c.getDeclaredMethods()) {
-      CHECKS.due(m + " takes at most seven", m.getParameterCount() <= 7, true);
+      CHECKS.due("rule 11: " + m + " takes at most seven", m.getParameterCount() <= 7, true);
     }
   }
 
-  private static void wordsAreNotUsed() throws IOException {
-    byte[] bytes = Files.readAllBytes(Path.of("src/main/java/StoneHome.java"));
-    String source = new String(bytes, StandardCharsets.ISO_8859_1);
-    CHECKS.due("plain signs alone", source.chars().allMatch(c -> c == 10 || c >= 32 && c < 127), true);
-    String code = source.replaceAll("(?s)/\\*.*?\\*/", " ").replaceAll("//[^\n]*", " ").replaceAll("\"[^\"\n]*\"", "\"\"");
-    for (String word : NEVER) {
-      String form = Character.isLetter(word.charAt(0)) ? "\\b" + word + "\\b" : word;
-      Matcher found = Pattern.compile(form).matcher(code);
-      CHECKS.due("no " + word, found.find(), false);
+  /** Numbers, texts, own classes, and arrays of these; of two dimensions of numbers alone. */
+  private static void types(Source source) {
+    for (String type : source.types) {
+      String bare = type.replace("[]", "");
+      int dimensions = (type.length() - bare.length()) / 2;
+      boolean own = bare.startsWith("StoneHome.");
+      boolean number = PLAIN_TYPES.contains(bare) && !bare.startsWith("java");
+      CHECKS.due("rule 3: " + type, own && dimensions <= 1 || number && dimensions <= 2 || PLAIN_TYPES.contains(type), true);
     }
-    CHECKS.due("no texts joined by +", Pattern.compile("\"\\s*\\+|\\+\\s*\"").matcher(code).find(), false);
-    CHECKS.due("no package", Pattern.compile("(?m)^package ").matcher(code).find(), false);
-    Matcher imports = Pattern.compile("import ([\\w.]+);").matcher(code);
-    while (imports.find()) {
-      CHECKS.due("import of " + imports.group(1), imports.group(1).equals("java.util.Arrays"), true);
+    CHECKS.due("rule 3: types are found", source.types.contains("int") && source.types.contains("StoneHome.Street"), true);
+  }
+
+  private static void library(Source source) {
+    for (String used : source.library) {
+      CHECKS.due("rule 4: " + used, LIBRARY.contains(used), true);
+    }
+    CHECKS.due("rule 4: calls are found", source.library.isEmpty(), false);
+  }
+
+  /** Each looks at its divisor first; a new one is to be looked at by hand and then stands here too. */
+  private static void divisions(Source source) {
+    Set<String> looked = Set.of("StoneHome.Laws.joined(int,int,int)", "StoneHome.Street.landing(int,int,int)",
+        "StoneHome.commonDivisor(int,int)", "StoneHome.fraction(int,int,boolean)");
+    for (String divider : source.dividers) {
+      CHECKS.due("rule 7: the divisor in " + divider + " has been looked at", looked.contains(divider), true);
     }
   }
 
-  /** From a line that opens a method to the one that closes it, as far indented. */
-  private static void methodsAreShort() throws IOException {
-    String source = Files.readString(Path.of("src/main/java/StoneHome.java"), StandardCharsets.ISO_8859_1);
-    Matcher method = Pattern.compile("(?ms)^(  |    )(\\w[^\n;=]*\\)) \\{\n(.*?)^\\1\\}").matcher(source);
-    int methods = 0;
-    while (method.find()) {
-      methods++;
-      CHECKS.due(method.group(2) + " is short", method.group(3).lines().count() <= 58, true);
+  private static void depths(Source source) {
+    for (String method : source.calls.keySet()) {
+      int depth = source.depth(method, new HashSet<>());
+      CHECKS.due("rule 8: " + method + " calls itself by none", depth < 1000, true);
+      CHECKS.due("rule 11: from " + method + " calls go " + depth + " deep", depth <= 8, true);
     }
-    CHECKS.due("methods are found (" + methods + ")", methods > 100, true);
+    CHECKS.due("rule 11: the calls are found", source.depth("StoneHome.first(int,boolean)", new HashSet<>()) > 4, true);
+  }
+
+  private static void sizes(Source source) {
+    for (String method : source.linesOf.keySet()) {
+      CHECKS.due("rule 11: " + method + " is short", source.linesOf.get(method) <= 60, true);
+    }
+    CHECKS.due("rule 11: the methods are found", source.linesOf.size() > 100, true);
+  }
+
+  /** What is made, is made in constructors, but for the rows of the table; RoomTest counts them. */
+  private static void making(Source source) {
+    CHECKS.due("rule 12: makers are " + source.makers, source.makers.equals(Set.of("StoneHome.Table.turnTo(int)")), true);
+  }
+
+  private static void text() throws IOException {
+    String source = Files.readString(PLACE, StandardCharsets.ISO_8859_1);
+    CHECKS.due("rule 4: plain signs alone", source.chars().allMatch(c -> c == 10 || c >= 32 && c < 127), true);
+    CHECKS.due("no package", Pattern.compile("(?m)^package ").matcher(source).find(), false);
+    List<String> imports = Pattern.compile("(?m)^import .*;").matcher(source).results().map(r -> r.group()).toList();
+    CHECKS.due("rule 4: imports are " + imports, imports.equals(List.of("import java.util.Arrays;")), true);
   }
 
   private LanguageTest() {
